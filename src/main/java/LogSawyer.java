@@ -1303,8 +1303,8 @@ public final class LogSawyer {
 
         private void tryPiece(int y, int n, int a, int b, int s, int t) {
             int area = (b - a + 1) * (t - s + 1);
-            // Most pieces are too small for any price to make them the best: their faces need no look.
-            if (a > b || area * n * topPrice < found.worth) {
+            // A piece that is worth no more even at the best price is no larger than what is found: no look at its faces.
+            if (a > b || area * n * topPrice <= found.worth) {
                 return;
             }
             int grade = gradeOf(y, n, a, b, s, t);
