@@ -381,7 +381,7 @@ public final class LogSawyer {
         if (!yard.hasLog() || !within(turn, NONE, TURNS - 1)) {
             return NO;
         }
-        return turn == NONE ? turnWorths[turnOfMost()] : worthByTurn(turn);
+        return turn == NONE ? turnWorths[turnOfMost()] : openByTurn(turn);
     }
 
     public int bestTurn() {
@@ -391,7 +391,7 @@ public final class LogSawyer {
     private int turnOfMost() {
         int most = 0;
         for (int t = 0; t < TURNS; t++) {
-            turnWorths[t] = worthByTurn(t);
+            turnWorths[t] = openByTurn(t);
             if (turnWorths[t] > turnWorths[most]) {
                 most = t;
             }
@@ -399,7 +399,8 @@ public final class LogSawyer {
         return most;
     }
 
-    private int worthByTurn(int t) {
+    /** Opens the log by a turn in thought: what that is worth. */
+    private int openByTurn(int t) {
         thought.lay(yard, t, yard.faults, yard.faultCount);
         return thought.open(yard.rules[KERF]);
     }
@@ -649,7 +650,7 @@ public final class LogSawyer {
     private int turnsTold(int sheet) {
         int turns = 0;
         for (int t = 0; t < TURNS; t++) {
-            worthByTurn(t);
+            openByTurn(t);
             if (firstOtherwise(sheet, thought) == NONE) {
                 turns |= 1 << t;
             }
