@@ -121,17 +121,25 @@ public final class BoardEdgesTest {
     private static void bestPieceTies() {
         say("2: of several of most AREA", """
             log(6, 0, 4); fault(3, 2, 2, 1); rule(2, 2); rule(4, 1); board(5, 2, 2) = 0; board(5, 2, 3) = 3; board(5, 2, 4) = 2; worth(5, 2) = 96
+            """, """
+            log(6, 0, 6); fault(3, 2, 0, 1); rule(2, 2); rule(3, 0); rule(4, 1); board(5, 2, 2) = 0; board(5, 2, 3) = 5; board(5, 2, 4) = 2; worth(5, 2) = 144
+            rule(2, 3); board(5, 2, 2) = 3; worth(5, 2) = 216   # 72 by 1 was ahead of 36 by 2
             """);
         say("2: of several the first by s", """
             log(6, 0, 7); rule(3, 0); rule(4, 0); rule(5, 0); fault(3, 0, 2, 1); board(5, 2, 2) = 0; board(5, 2, 3) = 1
             """, """
             log(6, 0, 8); rule(3, 0); rule(4, 0); rule(5, 0); fault(2, 0, 0, 2)   # slices 4 .. 7 of all, all of columns 0 .. 5: 48
             board(5, 2, 2) = 0; board(5, 2, 3) = 7; board(5, 2, 0) = 0; board(5, 2, 1) = 5
+            """, """
+            log(6, 0, 8); rule(5, 0); fault(0, 6, 0, 2); fault(3, 0, 2, 2); fault(0, 6, 6, 2)   # both of grade 2, at less than the best price
+            board(5, 2, 4) = 2; board(5, 2, 2) = 0; board(5, 2, 3) = 1; worth(5, 2) = 144
             """);
         say("2: then t", """
             log(6, 4, 6); board(5, 1, 2) = 0; board(5, 1, 3) = 2; board(5, 1, 0) = 2; board(5, 1, 1) = 9   # 8 by 3, 6 by 4
             """, """
             log(6, 4, 3); board(1, 1, 2) = 0; board(1, 1, 3) = 0; board(1, 1, 0) = 2   # 8 by 1, 4 by 2
+            """, """
+            log(6, 4, 6); fault(0, 6, 0, 2); fault(0, 6, 2, 2); fault(0, 6, 4, 2); board(5, 2, 4) = 2; board(5, 2, 2) = 0; board(5, 2, 3) = 2; worth(5, 2) = 144
             """, """
             log(6, 0, 8); rule(3, 0); rule(4, 0); rule(5, 0); fault(2, 0, 4, 2)   # slices 0 .. 3 of all, all of columns 0 .. 5: 48
             board(5, 2, 2) = 0; board(5, 2, 3) = 3; board(5, 2, 0) = 0; board(5, 2, 1) = 11
@@ -139,6 +147,8 @@ public final class BoardEdgesTest {
         say("2: then a, b", """
             log(6, 0, 8); rule(3, 0); rule(4, 0); rule(5, 0); fault(3, 2, 0, 4); fault(3, 2, 4, 4); board(5, 2, 0) = 0; board(5, 2, 1) = 4
             board(0, 1, 0) = 4; board(0, 1, 1) = 4   # 4 alone or 7 alone
+            """, """
+            log(6, 0, 8); rule(5, 0); fault(5, 0, 0, 4); fault(0, 0, 0, 1); fault(0, 4, 0, 1); board(5, 2, 4) = 2; board(5, 2, 0) = 0; board(5, 2, 1) = 1; worth(5, 2) = 96
             """);
     }
 
@@ -268,6 +278,9 @@ public final class BoardEdgesTest {
         say("2: BOARDS that have a BEST PIECE: no others", """
             log(2, 0, 1); rule(0, 0); rule(6, 2); opening(-1, 0) = 4; opening(0, 0) = 4; opening(3, 0) = 7
             rule(2, 0); opening(-1, 0) = 0; opening(0, 0) = -12; rule(2, 9); fault(5, 0, 0, 2); opening(-1, 0) = 0; best(0) = 0
+            """, """
+            log(2, 0, 1); rule(0, 0); rule(6, 2); rule(2, 1); rule(3, 0); rule(4, 0); rule(5, 0); fault(0, 0, 0, 3)
+            worth(4, 1) = 1; board(4, 1, 0) = 5; board(4, 1, 1) = 5; opening(-1, 0) = 4; opening(0, 0) = 4; best(0) = 6   # WORTH 1 is something
             """);
     }
 

@@ -5,6 +5,7 @@ public final class HostEdgesTest {
     private static final String ZEROS = "log(6, 0, 4); rule(0, 0); rule(6, 2)\n";
 
     public static void main(String[] args) {
+        manyCalls();
         imageNone();
         imageKeeps();
         imageStays();
@@ -22,6 +23,17 @@ public final class HostEdgesTest {
 
     private static void say(String words, String... texts) {
         Script.sentence(d, words, texts);
+    }
+
+    private static void manyCalls() {
+        d.part("An object is used for at most 512 calls: the last is answered as the first");
+        Script s = new Script(d).run("log(6, 1, 8) = 768; tape \"k022 h231 o061\" = 14; text() = 3; image() = 3");
+        long worth = s.ask("best(-1)");
+        for (int i = 8; i < 510; i++) {
+            s.ask(i % 2 == 0 ? "chance(" + i + ", 8, 2000, 0)" : "drawn(" + i + ", 8)");
+        }
+        s.due("best(-1)", worth);
+        s.due("back()", 3);
     }
 
     private static void imageNone() {

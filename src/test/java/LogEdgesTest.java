@@ -522,6 +522,7 @@ public final class LogEdgesTest {
             log(6, 0, 2); fault(5, 0, 1, 4); fault(0, 0, 0, 1); fault(5, 0, 0, 4); cell(6, 5, 0, 2) = 1; cell(5, 5, 0, 2) = 2; cell(6, 5, 1, 2) = 0
             cell(0, 5, 0, 2) = NONE; cell(11, 5, 0, 2) = 1; cell(11, 5, 1, 2) = NONE; heal(0) = 2; cell(6, 5, 0, 2) = 0; cell(6, 5, 1, 2) = 1
             """);
-        say("11: HURT and FAULTS of a CELL that is not WOOD, too", "log(2, 0, 1); fault(0, 0, 0, 1); cell(11, 5, 0, 0) = 0; cell(11, 5, 0, 1) = 1; cell(11, 5, 0, 2) = 0");
+        say("11: HURT and FAULTS of a CELL that is not WOOD, too", "log(2, 0, 1); fault(0, 0, 0, 1); cell(11, 5, 0, 0) = 0; cell(11, 5, 0, 1) = 1; cell(11, 5, 0, 2) = 0",
+            "log(6, 0, 8); fault(0, 5, 7, 1); cell(0, 0, 7, 1) = 1; cell(0, 0, 7, 2) = 0; cell(0, 0, 6, 1) = 0; turn(1); cell(11, 0, 7, 1) = 1; turn(2); cell(11, 11, 7, 1) = 1; turn(3); cell(0, 11, 7, 1) = 1; cell(0, 11, 7, 0) = 0");
     }
 }

@@ -66,6 +66,11 @@ public final class StackEdgesTest {
         say("2: THICKNESS, how many COLUMNS, SLICES, GRADE", """
             log(5, 3, 6); tape "k021l142s312h411r013o052t221"; text() = 7; saw() = 3
             stack(0, 0) = 3; stack(0, 1) = 4; stack(0, 2) = 3; stack(0, 3) = 0; stack(1, 0) = 2; stack(1, 1) = 10; stack(1, 2) = 1; stack(1, 3) = 0
+            """, """
+            log(2, 0, 8); rule(0, 2); rule(6, 4); fault(5, 0, 7, 2); fault(3, 0, 0, 1); board(5, 2, 2) = 3; board(5, 2, 3) = 6; saw() = 1
+            stack(0, 0) = 2; stack(0, 1) = 4; stack(0, 2) = 4; stack(0, 3) = 0
+            log(6, 0, 8); rule(0, 2); rule(6, 4); fault(3, 2, 0, 4); fault(3, 2, 4, 4); fault(0, 4, 0, 1); board(5, 2, 0) = 7; board(5, 2, 1) = 11; saw() = 3
+            stack(2, 1) = 5; stack(2, 2) = 8; stack(2, 3) = 0
             """);
     }
 
