@@ -43,7 +43,8 @@ public final class BoardEdgesTest {
         }
         say("2: rows and thicknesses far outside", """
             log(6, 0, 1); board(MAX, 1, 0) = BAD; board(MAX, 4, 0) = BAD; board(MIN, 1, 0) = BAD; board(0, MAX, 0) = BAD; board(0, MIN, 0) = BAD
-            graded(MAX, 4, 5, 6, 0) = BAD; graded(5, MIN, 5, 6, 0) = BAD; worth(MAX, 4) = NO; worth(MIN, 1) = NO; worth(5, MAX) = NO; worth(5, MIN) = NO
+            graded(MAX, 4, 5, 6, 0) = BAD; graded(5, MIN, 5, 6, 0) = BAD; worth(MAX, 4) = NO; worth(MIN, 1) = NO; worth(5, MAX) = NO
+            worth(5, MIN) = NO
             """);
     }
 
@@ -75,7 +76,8 @@ public final class BoardEdgesTest {
             log(6, 0, 8); fault(5, 0, 5, 4); fault(3, 0, 0, 1); board(5, 2, 2) = 3; board(5, 2, 3) = 4; board(5, 2, 0) = 0; board(5, 2, 1) = 11
             log(6, 0, 8); fault(5, 0, 1, 4); board(5, 2, 2) = 0; board(5, 2, 3) = 7; board(5, 2, 0) = 0; board(5, 2, 1) = 1   # along: 16 ahead of 12
             """, """
-            log(6, 0, 8); fault(3, 0, 0, 4); fault(0, 0, 6, 1); fault(0, 4, 6, 1); rule(4, 0); rule(5, 0); board(5, 2, 2) = 7; board(5, 2, 3) = 7; board(5, 2, 0) = 0
+            log(6, 0, 8); fault(3, 0, 0, 4); fault(0, 0, 6, 1); fault(0, 4, 6, 1); rule(4, 0); rule(5, 0); board(5, 2, 2) = 7
+            board(5, 2, 3) = 7; board(5, 2, 0) = 0
             """);
         say("2: of all SLICES some a .. b of the COLUMNS at the last (cut along)", """
             log(6, 0, 8); rule(3, 0); rule(4, 0); rule(5, 0); fault(0, 0, 0, 1)
@@ -114,7 +116,8 @@ public final class BoardEdgesTest {
             """);
         say("12: HURT of the upper FACE, of the lower one", """
             log(6, 0, 8); rule(1, 0); fault(6, 2, 4, 1); board(5, 2, 4) = 1; board(5, 2, 5) = 0; board(5, 2, 6) = 8
-            turn(2); board(5, 2, 5) = 8; board(5, 2, 6) = 0; board(5, 1, 5) = 8; board(5, 1, 6) = 8; board(6, 1, 5) = 0; turn(0); board(6, 1, 5) = 8; board(6, 1, 6) = 8
+            turn(2); board(5, 2, 5) = 8; board(5, 2, 6) = 0; board(5, 1, 5) = 8; board(5, 1, 6) = 8; board(6, 1, 5) = 0; turn(0)
+            board(6, 1, 5) = 8; board(6, 1, 6) = 8
             """);
     }
 
@@ -122,7 +125,8 @@ public final class BoardEdgesTest {
         say("2: of several of most AREA", """
             log(6, 0, 4); fault(3, 2, 2, 1); rule(2, 2); rule(4, 1); board(5, 2, 2) = 0; board(5, 2, 3) = 3; board(5, 2, 4) = 2; worth(5, 2) = 96
             """, """
-            log(6, 0, 6); fault(3, 2, 0, 1); rule(2, 2); rule(3, 0); rule(4, 1); board(5, 2, 2) = 0; board(5, 2, 3) = 5; board(5, 2, 4) = 2; worth(5, 2) = 144
+            log(6, 0, 6); fault(3, 2, 0, 1); rule(2, 2); rule(3, 0); rule(4, 1); board(5, 2, 2) = 0; board(5, 2, 3) = 5
+            board(5, 2, 4) = 2; worth(5, 2) = 144
             rule(2, 3); board(5, 2, 2) = 3; worth(5, 2) = 216   # 72 by 1 was ahead of 36 by 2
             """);
         say("2: of several the first by s", """
@@ -139,7 +143,8 @@ public final class BoardEdgesTest {
             """, """
             log(6, 4, 3); board(1, 1, 2) = 0; board(1, 1, 3) = 0; board(1, 1, 0) = 2   # 8 by 1, 4 by 2
             """, """
-            log(6, 4, 6); fault(0, 6, 0, 2); fault(0, 6, 2, 2); fault(0, 6, 4, 2); board(5, 2, 4) = 2; board(5, 2, 2) = 0; board(5, 2, 3) = 2; worth(5, 2) = 144
+            log(6, 4, 6); fault(0, 6, 0, 2); fault(0, 6, 2, 2); fault(0, 6, 4, 2); board(5, 2, 4) = 2; board(5, 2, 2) = 0
+            board(5, 2, 3) = 2; worth(5, 2) = 144
             """, """
             log(6, 0, 8); rule(3, 0); rule(4, 0); rule(5, 0); fault(2, 0, 4, 2)   # slices 0 .. 3 of all, all of columns 0 .. 5: 48
             board(5, 2, 2) = 0; board(5, 2, 3) = 3; board(5, 2, 0) = 0; board(5, 2, 1) = 11
@@ -148,7 +153,8 @@ public final class BoardEdgesTest {
             log(6, 0, 8); rule(3, 0); rule(4, 0); rule(5, 0); fault(3, 2, 0, 4); fault(3, 2, 4, 4); board(5, 2, 0) = 0; board(5, 2, 1) = 4
             board(0, 1, 0) = 4; board(0, 1, 1) = 4   # 4 alone or 7 alone
             """, """
-            log(6, 0, 8); rule(5, 0); fault(5, 0, 0, 4); fault(0, 0, 0, 1); fault(0, 4, 0, 1); board(5, 2, 4) = 2; board(5, 2, 0) = 0; board(5, 2, 1) = 1; worth(5, 2) = 96
+            log(6, 0, 8); rule(5, 0); fault(5, 0, 0, 4); fault(0, 0, 0, 1); fault(0, 4, 0, 1); board(5, 2, 4) = 2; board(5, 2, 0) = 0
+            board(5, 2, 1) = 1; worth(5, 2) = 96
             """);
     }
 
@@ -174,10 +180,14 @@ public final class BoardEdgesTest {
 
     private static void boardNumbers() {
         say("12: what (0 .. 6)", """
-            log(6, 0, 8); board(5, 2, -1) = BAD; board(5, 2, 0) = 0; board(5, 2, 6) = 0; board(5, 2, 7) = BAD; board(5, 2, MIN) = BAD; board(5, 2, MAX) = BAD
+            log(6, 0, 8); board(5, 2, -1) = BAD; board(5, 2, 0) = 0; board(5, 2, 6) = 0; board(5, 2, 7) = BAD; board(5, 2, MIN) = BAD
+            board(5, 2, MAX) = BAD
             rule(2, 0); board(5, 2, -1) = BAD; board(5, 2, 7) = BAD; board(5, 2, 0) = NONE   # BAD where there is none, too
             """);
-        say("12: STATE ahead of BAD", "board(5, 2, 0) = STATE; board(12, 1, 0) = STATE; board(5, 0, 0) = STATE; board(5, 2, 7) = STATE; log(6, 0, 8); saw(); board(5, 2, 0) = STATE");
+        say("12: STATE ahead of BAD", """
+            board(5, 2, 0) = STATE; board(12, 1, 0) = STATE; board(5, 0, 0) = STATE; board(5, 2, 7) = STATE; log(6, 0, 8); saw()
+            board(5, 2, 0) = STATE
+            """);
         say("12: of a THICKNESS that is not sawn, too", "log(6, 0, 8); rule(6, 0); board(5, 1, 1) = 11; worth(5, 1) = 864; opening(-1, 0) = 0");
     }
 
@@ -199,7 +209,8 @@ public final class BoardEdgesTest {
             sliced.run("graded(5, 1, 5, 6, MIN) = BAD; graded(5, 1, 5, 6, MAX) = BAD; graded(5, 1, MIN, 6, 0) = BAD; graded(5, 1, 5, MAX, 0) = BAD");
         }
         say("13: s and t are the first and the last of them", """
-            log(6, 0, 8); fault(0, 0, 3, 1); graded(5, 1, 6, 6, 2) = 0; graded(5, 1, 6, 6, 3) = 2; graded(5, 1, 6, 6, 27) = 3; graded(5, 1, 6, 6, 28) = 2
+            log(6, 0, 8); fault(0, 0, 3, 1); graded(5, 1, 6, 6, 2) = 0; graded(5, 1, 6, 6, 3) = 2; graded(5, 1, 6, 6, 27) = 3
+            graded(5, 1, 6, 6, 28) = 2
             graded(5, 1, 6, 6, 36) = 0; graded(5, 1, 6, 6, 39) = 0; graded(5, 1, 6, 6, 31) = 2; graded(5, 1, 6, 6, 18) = 0; graded(5, 1, 6, 6, 19) = 2
             """);
         say("13: STATE ahead of BAD", "graded(5, 1, 5, 6, 0) = STATE; graded(12, 0, 6, 5, 64) = STATE");
@@ -224,14 +235,18 @@ public final class BoardEdgesTest {
         }
         say("13: all of its rows, all of its slices", """
             log(6, 4, 4); graded(4, 4, 0, 11, 0) = 0; graded(3, 4, 0, 11, 0) = NONE; graded(5, 4, 0, 11, 0) = NONE; graded(5, 4, 1, 10, 0) = 0
-            graded(5, 2, 0, 11, 1) = NONE; graded(5, 2, 1, 10, 1) = 0; graded(5, 2, 1, 10, 2) = NONE; graded(5, 2, 2, 9, 2) = 0; graded(5, 2, 2, 9, 3) = NONE
+            graded(5, 2, 0, 11, 1) = NONE; graded(5, 2, 1, 10, 1) = 0; graded(5, 2, 1, 10, 2) = NONE; graded(5, 2, 2, 9, 2) = 0
+            graded(5, 2, 2, 9, 3) = NONE
             graded(5, 2, 3, 8, 3) = 0; graded(5, 2, 3, 8, 27) = 0; graded(5, 2, 2, 8, 27) = NONE; graded(5, 2, 3, 9, 27) = NONE
             """);
     }
 
     private static void gradeEdges() {
         // A knot of angle 0, size 1, slice 0: rows 5, 6 of columns 6 .. 11 hurt 1 there.
-        say("2: GRADE 0: WORSE is 0", "log(6, 0, 8); fault(0, 0, 0, 1); graded(5, 2, 0, 5, 7) = 0; graded(5, 2, 6, 11, 15) = 0; graded(4, 2, 6, 6, 0) = 3; graded(6, 2, 6, 6, 0) = 3; graded(4, 4, 6, 6, 0) = 0");
+        say("2: GRADE 0: WORSE is 0", """
+            log(6, 0, 8); fault(0, 0, 0, 1); graded(5, 2, 0, 5, 7) = 0; graded(5, 2, 6, 11, 15) = 0; graded(4, 2, 6, 6, 0) = 3
+            graded(6, 2, 6, 6, 0) = 3; graded(4, 4, 6, 6, 0) = 0
+            """);
         say("2: GRADE 1: BETTER is 0, 8 times WORSE at most AREA", """
             log(6, 0, 8); fault(0, 0, 0, 1)
             graded(4, 2, 6, 6, 7) = 1; graded(4, 2, 6, 6, 6) = 2     # 1 of 8, of 7
@@ -245,7 +260,8 @@ public final class BoardEdgesTest {
             graded(5, 2, 4, 7, 0) = 2; graded(5, 2, 5, 7, 0) = 3     # 2 of 4, of 3
             graded(4, 2, 6, 6, 1) = 2; graded(4, 2, 6, 6, 0) = 3     # of one face
             """, """
-            log(6, 0, 8); fault(5, 0, 7, 1); graded(5, 2, 0, 11, 7) = 3; graded(5, 2, 0, 11, 6) = 0; graded(4, 2, 0, 11, 7) = 3; graded(6, 2, 0, 11, 7) = 3
+            log(6, 0, 8); fault(5, 0, 7, 1); graded(5, 2, 0, 11, 7) = 3; graded(5, 2, 0, 11, 6) = 0; graded(4, 2, 0, 11, 7) = 3
+            graded(6, 2, 0, 11, 7) = 3
             graded(5, 2, 0, 4, 7) = 0; graded(4, 4, 0, 11, 7) = 0    # between the faces a rot does not count
             """, """
             log(6, 0, 8); fault(4, 0, 5, 1); graded(5, 2, 0, 11, 7) = 2   # 24 of 96, none of them 9
@@ -295,13 +311,17 @@ public final class BoardEdgesTest {
             rule(0, 1); opening(-1, 0) = 6; best(0) = 56; opening(0, 0) = 0; opening(5, 0) = 10
             rule(0, 2); opening(-1, 0) = 4; best(0) = 40; opening(0, 0) = 1; opening(1, 0) = 4; opening(2, 0) = 7; opening(3, 0) = 10
             """);
-        say("2: no KERF is asked above the first, below the last", "log(6, 0, 1); rule(6, 2); rule(0, 1); opening(0, 0) = 0; turn(2); opening(0, 0) = 0; rule(6, 16); rule(0, 0); opening(2, 0) = 8");
+        say("2: no KERF is asked above the first, below the last", """
+            log(6, 0, 1); rule(6, 2); rule(0, 1); opening(0, 0) = 0; turn(2); opening(0, 0) = 0; rule(6, 16); rule(0, 0)
+            opening(2, 0) = 8
+            """);
     }
 
     private static void openingTies() {
         say("2: BEST: at the first row from which two go on otherwise: that with the thicker BOARD there", """
             log(6, 0, 1); rule(0, 0); rule(6, 30); best(0) = 1008; opening(-1, 0) = 7
-            opening(0, 1) = 1; opening(1, 1) = 1; opening(2, 0) = 2; opening(2, 1) = 2; opening(3, 0) = 4; opening(3, 1) = 4; opening(4, 0) = 8; opening(4, 1) = 2
+            opening(0, 1) = 1; opening(1, 1) = 1; opening(2, 0) = 2; opening(2, 1) = 2; opening(3, 0) = 4; opening(3, 1) = 4
+            opening(4, 0) = 8; opening(4, 1) = 2
             opening(5, 0) = 10; opening(5, 1) = 1; opening(6, 0) = 11; opening(6, 1) = 1
             rule(6, 14); opening(3, 1) = 3; opening(4, 0) = 7; opening(4, 1) = 1; rule(6, 6); opening(3, 1) = 2; opening(4, 1) = 2
             """);
@@ -311,29 +331,45 @@ public final class BoardEdgesTest {
             """, """
             log(6, 0, 1); rule(6, 16); rule(0, 1); opening(0, 0) = 1; opening(1, 0) = 6   # 1 and 6; 2 and 7
             """);
-        say("2: of most WORTH together, though the first is worth less", "log(2, 0, 1); rule(0, 0); rule(6, 6); opening(0, 0) = 4; opening(0, 1) = 1; opening(1, 0) = 5; opening(1, 1) = 2; opening(2, 0) = 7; opening(2, 1) = 1");
+        say("2: of most WORTH together, though the first is worth less", """
+            log(2, 0, 1); rule(0, 0); rule(6, 6); opening(0, 0) = 4; opening(0, 1) = 1; opening(1, 0) = 5; opening(1, 1) = 2
+            opening(2, 0) = 7; opening(2, 1) = 1
+            """);
     }
 
     private static void openingNumbers() {
         say("15: how many BOARDS (k -1; a what that is none is refused, too)", """
-            log(6, 0, 8); opening(-1, 0) = 3; opening(-1, 2) = 3; opening(-1, 3) = BAD; opening(-1, -1) = BAD; opening(-1, MIN) = BAD; opening(-1, MAX) = BAD
+            log(6, 0, 8); opening(-1, 0) = 3; opening(-1, 2) = 3; opening(-1, 3) = BAD; opening(-1, -1) = BAD; opening(-1, MIN) = BAD
+            opening(-1, MAX) = BAD
             """);
         say("15: -12: no such BOARD", """
-            log(6, 0, 8); opening(0, 0) = 1; opening(2, 0) = 9; opening(3, 0) = -12; opening(-2, 0) = -12; opening(MIN, 0) = -12; opening(MAX, 0) = -12
+            log(6, 0, 8); opening(0, 0) = 1; opening(2, 0) = 9; opening(3, 0) = -12; opening(-2, 0) = -12; opening(MIN, 0) = -12
+            opening(MAX, 0) = -12
             rule(6, 0); opening(-1, 0) = 0; opening(0, 0) = -12
             """);
-        say("15: what (0 .. 2); BAD ahead of -12", "log(6, 0, 8); opening(0, -1) = BAD; opening(0, 0) = 1; opening(0, 1) = 3; opening(0, 2) = 0; opening(0, 3) = BAD; opening(3, 3) = BAD; opening(-2, -1) = BAD");
-        say("15: STATE ahead of BAD, of -12", "opening(-1, 0) = STATE; opening(0, 0) = STATE; opening(-1, 3) = STATE; opening(99, 0) = STATE; log(6, 0, 1); saw(); opening(-1, 0) = STATE");
+        say("15: what (0 .. 2); BAD ahead of -12", """
+            log(6, 0, 8); opening(0, -1) = BAD; opening(0, 0) = 1; opening(0, 1) = 3; opening(0, 2) = 0; opening(0, 3) = BAD
+            opening(3, 3) = BAD; opening(-2, -1) = BAD
+            """);
+        say("15: STATE ahead of BAD, of -12", """
+            opening(-1, 0) = STATE; opening(0, 0) = STATE; opening(-1, 3) = STATE; opening(99, 0) = STATE; log(6, 0, 1); saw()
+            opening(-1, 0) = STATE
+            """);
     }
 
     private static void bestNumbers() {
-        say("16: NO: no LOG, a number", "best(0) = NO; best(-1) = NO; best(4) = NO; log(6, 0, 1); best(-2) = NO; best(-1) = 684; best(0) = 684; best(3) = 684; best(4) = NO; best(MIN) = NO; best(MAX) = NO; saw(); best(0) = NO");
+        say("16: NO: no LOG, a number", """
+            best(0) = NO; best(-1) = NO; best(4) = NO; log(6, 0, 1); best(-2) = NO; best(-1) = 684; best(0) = 684; best(3) = 684
+            best(4) = NO; best(MIN) = NO; best(MAX) = NO; saw(); best(0) = NO
+            """);
         say("16: by a TURN (NONE: the BEST TURN)", """
-            log(6, 0, 8); tape "k022 h231 o061"; text() = 3; best(0) = 2160; best(1) = 3240; best(2) = 2160; best(3) = 3240; best(-1) = 3240; count(4) = 0
+            log(6, 0, 8); tape "k022 h231 o061"; text() = 3; best(0) = 2160; best(1) = 3240; best(2) = 2160; best(3) = 3240
+            best(-1) = 3240; count(4) = 0
             turn(3); best(0) = 2160; best(1) = 3240; best(-1) = 3240; count(4) = 3
             """);
         say("17: BEST TURN: of several the least; STATE", """
-            bestTurn() = STATE; log(6, 0, 8); bestTurn() = 0; turn(2); bestTurn() = 0; tape "k022 h231 o061"; text() = 3; bestTurn() = 1; turn(3); bestTurn() = 1; count(4) = 3
+            bestTurn() = STATE; log(6, 0, 8); bestTurn() = 0; turn(2); bestTurn() = 0; tape "k022 h231 o061"; text() = 3; bestTurn() = 1
+            turn(3); bestTurn() = 1; count(4) = 3
             rule(6, 0); bestTurn() = 0; rule(6, 12); heal(1); heal(0); bestTurn() = 0; saw(); bestTurn() = STATE
             """);
     }

@@ -142,7 +142,8 @@ public final class LogEdgesTest {
         }
         say("3: n bytes, a, b, .. come behind the tape: those that are asked, in their order", """
             log(6, 0, 8); feed(1, 107, 49, 50, 51, 52); feed(3, 49, 50, 51, 120, 120); text() = 1; told(0, 1) = 1; told(0, 2) = 2; told(0, 3) = 3
-            feed(2, 108, 52, 120, 120, 120); feed(2, 53, 50, 120, 120, 120); text() = 2; told(1, 0) = 1; told(1, 1) = 4; told(1, 2) = 5; told(1, 3) = 2
+            feed(2, 108, 52, 120, 120, 120); feed(2, 53, 50, 120, 120, 120); text() = 2; told(1, 0) = 1; told(1, 1) = 4; told(1, 2) = 5
+            told(1, 3) = 2
             feed(4, 116, 55, 54, 49, 120); text() = 3; told(2, 0) = 6; told(2, 1) = 7; told(2, 2) = 6; told(2, 3) = 1
             feed(5, 32, 111, 49, 48, 52); text() = 4; told(3, 0) = 5; told(3, 1) = 1; told(3, 2) = 0; told(3, 3) = 4
             """);
@@ -168,15 +169,21 @@ public final class LogEdgesTest {
                 s.due("count(5)", had + n <= 40 ? had + n : had);
             }
         }
-        say("3: FULL: none of them comes", "log(6, 0, 8); tape \"k111k222k333k444l111l222l333o111 r112\"; tape \" \" = 38; feed(3, 10, 120, 120, 0, 0) = FULL; text() = FULL",
+        say("3: FULL: none of them comes", """
+            log(6, 0, 8); tape "k111k222k333k444l111l222l333o111 r112"; tape " " = 38; feed(3, 10, 120, 120, 0, 0) = FULL; text() = FULL
+            """,
             "log(6, 0, 8); tape \"k111k222k333k444l111l222l333o111      \" = 38; feed(3, 120, 120, 120, 0, 0) = FULL; count(5) = 38; text() = 8");
         say("3: what is taken from the full tape makes room for 40 again",
-            "log(6, 0, 1); tape \"                                        \" = 40; feed(1, 0, 0, 0, 0, 0) = FULL; text() = -140; feed(5, 0, 0, 0, 0, 0) = 5");
+            """
+            log(6, 0, 1); tape "                                        " = 40; feed(1, 0, 0, 0, 0, 0) = FULL; text() = -140
+            feed(5, 0, 0, 0, 0, 0) = 5
+            """);
     }
 
     private static void feedOrder() {
         say("3: BAD ahead of FULL", """
-            tape "                                        " = 40; feed(1, 0, 0, 0, 0, 0) = FULL; feed(0, 0, 0, 0, 0, 0) = BAD; feed(6, 0, 0, 0, 0, 0) = BAD
+            tape "                                        " = 40; feed(1, 0, 0, 0, 0, 0) = FULL; feed(0, 0, 0, 0, 0, 0) = BAD
+            feed(6, 0, 0, 0, 0, 0) = BAD
             feed(1, 256, 0, 0, 0, 0) = BAD; feed(1, 0, 0, 0, 0, -1) = BAD; count(5) = 40
             """);
     }
@@ -185,7 +192,9 @@ public final class LogEdgesTest {
         say("4: STATE (THE TAPE stays)", """
             tape "k011"; text() = STATE; count(5) = 4; log(6, 0, 8); text() = 1; count(5) = 0; told(0, 0) = 0
             """);
-        say("4: STATE ahead of the FAULT'S PLACE", "text() = STATE; tape \"x\"; text() = STATE; count(5) = 1; log(6, 0, 8); text() = -100; text() = -100");
+        say("4: STATE ahead of the FAULT'S PLACE", """
+            text() = STATE; tape "x"; text() = STATE; count(5) = 1; log(6, 0, 8); text() = -100; text() = -100
+            """);
         say("4: a log that was sawn is none", "log(6, 0, 8); saw(); tape \"k011\"; text() = STATE; count(5) = 4");
     }
 
@@ -272,7 +281,8 @@ public final class LogEdgesTest {
         say("4: FULL (none comes; THE TAPE is empty, too)", """
             log(6, 0, 8); tape "k111k222k333k444l111l222l333o111t111"; text() = FULL; count(0) = 0; count(5) = 0; text() = -100
             """, """
-            log(6, 0, 8); tape "k111k222k333k444l111l222l333"; text() = 7; tape "o111t111"; text() = FULL; count(0) = 7; count(5) = 0; tape "h222"; text() = 8
+            log(6, 0, 8); tape "k111k222k333k444l111l222l333"; text() = 7; tape "o111t111"; text() = FULL; count(0) = 7; count(5) = 0
+            tape "h222"; text() = 8
             told(7, 0) = 3
             """);
         say("4: the FAULT'S PLACE ahead of FULL", """
@@ -286,10 +296,22 @@ public final class LogEdgesTest {
     }
 
     private static void faultNumbers() {
-        say("5: KINDS 0 .. 6", "log(6, 0, 8); fault(-1, 0, 0, 1) = BAD; fault(0, 0, 0, 1) = 0; fault(6, 0, 0, 1) = 1; fault(7, 0, 0, 1) = BAD; fault(MIN, 0, 0, 1) = BAD; fault(MAX, 0, 0, 1) = BAD; count(0) = 2");
-        say("5: ANGLE (0 .. 7)", "log(6, 0, 8); fault(0, -1, 0, 1) = BAD; fault(0, 0, 0, 1) = 0; fault(0, 7, 0, 1) = 1; fault(0, 8, 0, 1) = BAD; fault(0, MIN, 0, 1) = BAD; fault(0, MAX, 0, 1) = BAD; count(0) = 2");
-        say("5: SLICE (0 .. 7), of a shorter LOG, too", "log(6, 0, 1); fault(0, 0, -1, 1) = BAD; fault(0, 0, 0, 1) = 0; fault(0, 0, 1, 1) = 1; fault(0, 0, 7, 1) = 2; fault(0, 0, 8, 1) = BAD; fault(0, 0, MIN, 1) = BAD; fault(0, 0, MAX, 1) = BAD; count(0) = 3");
-        say("5: SIZE (1 .. 4)", "log(6, 0, 8); fault(0, 0, 0, 0) = BAD; fault(0, 0, 0, 1) = 0; fault(0, 0, 0, 4) = 1; fault(0, 0, 0, 5) = BAD; fault(0, 0, 0, MIN) = BAD; fault(0, 0, 0, MAX) = BAD; count(0) = 2");
+        say("5: KINDS 0 .. 6", """
+            log(6, 0, 8); fault(-1, 0, 0, 1) = BAD; fault(0, 0, 0, 1) = 0; fault(6, 0, 0, 1) = 1; fault(7, 0, 0, 1) = BAD
+            fault(MIN, 0, 0, 1) = BAD; fault(MAX, 0, 0, 1) = BAD; count(0) = 2
+            """);
+        say("5: ANGLE (0 .. 7)", """
+            log(6, 0, 8); fault(0, -1, 0, 1) = BAD; fault(0, 0, 0, 1) = 0; fault(0, 7, 0, 1) = 1; fault(0, 8, 0, 1) = BAD
+            fault(0, MIN, 0, 1) = BAD; fault(0, MAX, 0, 1) = BAD; count(0) = 2
+            """);
+        say("5: SLICE (0 .. 7), of a shorter LOG, too", """
+            log(6, 0, 1); fault(0, 0, -1, 1) = BAD; fault(0, 0, 0, 1) = 0; fault(0, 0, 1, 1) = 1; fault(0, 0, 7, 1) = 2
+            fault(0, 0, 8, 1) = BAD; fault(0, 0, MIN, 1) = BAD; fault(0, 0, MAX, 1) = BAD; count(0) = 3
+            """);
+        say("5: SIZE (1 .. 4)", """
+            log(6, 0, 8); fault(0, 0, 0, 0) = BAD; fault(0, 0, 0, 1) = 0; fault(0, 0, 0, 4) = 1; fault(0, 0, 0, 5) = BAD
+            fault(0, 0, 0, MIN) = BAD; fault(0, 0, 0, MAX) = BAD; count(0) = 2
+            """);
     }
 
     private static void faultRoom() {
@@ -345,9 +367,9 @@ public final class LogEdgesTest {
         say("1: RING: from the square of (2 SIZE - 1) to the square of (2 SIZE + 1)", """
             log(6, 0, 1)
             fault(4, 0, 0, 1); cell(5, 5, 0, 2) = 0; cell(7, 5, 0, 2) = NONE; heal(0)                                             # 1 .. 9: 2; 10
-            fault(4, 0, 0, 2); cell(5, 5, 0, 2) = NONE; cell(7, 5, 0, 2) = 0; cell(7, 7, 0, 2) = 0; cell(8, 5, 0, 2) = NONE; heal(0) # 9 .. 25: 2; 10, 18; 26
-            fault(4, 0, 0, 3); cell(7, 7, 0, 2) = NONE; cell(8, 5, 0, 2) = 0; cell(8, 7, 0, 2) = 0; cell(8, 8, 0, 2) = NONE; heal(0) # 25 .. 49: 18; 26, 34; 50
-            fault(4, 0, 0, 4); cell(8, 7, 0, 2) = NONE; cell(8, 8, 0, 2) = 0; cell(9, 8, 0, 2) = 0; cell(10, 5, 0, 2) = NONE        # 49 .. 81: 34; 50, 74; 82
+            fault(4, 0, 0, 2); cell(5, 5, 0, 2) = NONE; cell(7, 5, 0, 2) = 0; cell(7, 7, 0, 2) = 0; cell(8, 5, 0, 2) = NONE; heal(0)   # 9 .. 25: 2; 10, 18; 26
+            fault(4, 0, 0, 3); cell(7, 7, 0, 2) = NONE; cell(8, 5, 0, 2) = 0; cell(8, 7, 0, 2) = 0; cell(8, 8, 0, 2) = NONE; heal(0)   # 25 .. 49: 18; 26, 34; 50
+            fault(4, 0, 0, 4); cell(8, 7, 0, 2) = NONE; cell(8, 8, 0, 2) = 0; cell(9, 8, 0, 2) = 0; cell(10, 5, 0, 2) = NONE   # 49 .. 81: 34; 50, 74; 82
             """);
         say("1: ROT: at most the square of twice SIZE", """
             log(6, 0, 1)
@@ -394,7 +416,8 @@ public final class LogEdgesTest {
 
     private static void heal() {
         say("6: BAD: no such FAULT", """
-            heal(0) = BAD; log(6, 0, 8); heal(0) = BAD; heal(-1) = BAD; fault(0, 0, 0, 1); heal(1) = BAD; heal(-1) = BAD; heal(MIN) = BAD; heal(MAX) = BAD
+            heal(0) = BAD; log(6, 0, 8); heal(0) = BAD; heal(-1) = BAD; fault(0, 0, 0, 1); heal(1) = BAD; heal(-1) = BAD; heal(MIN) = BAD
+            heal(MAX) = BAD
             count(0) = 1; heal(0) = 0; heal(0) = BAD
             """);
         say("6: those behind it are 1 less", """
@@ -402,7 +425,10 @@ public final class LogEdgesTest {
             heal(7) = 7; told(6, 0) = 6; told(7, 0) = BAD; heal(0) = 6; told(0, 0) = 1; told(5, 0) = 6; told(6, 0) = BAD
             heal(2) = 5; told(0, 0) = 1; told(1, 0) = 2; told(2, 0) = 4; told(3, 0) = 5; told(4, 0) = 6; told(5, 0) = BAD
             """);
-        say("6: a FAULT is none any more", "log(6, 0, 8); fault(5, 0, 0, 4); fault(0, 0, 0, 1); heal(0) = 1; cell(6, 5, 0, 1) = 1; cell(6, 5, 0, 2) = 0; cell(5, 5, 0, 2) = NONE; count(6) = 12");
+        say("6: a FAULT is none any more", """
+            log(6, 0, 8); fault(5, 0, 0, 4); fault(0, 0, 0, 1); heal(0) = 1; cell(6, 5, 0, 1) = 1; cell(6, 5, 0, 2) = 0
+            cell(5, 5, 0, 2) = NONE; count(6) = 12
+            """);
     }
 
     private static void told() {
@@ -411,19 +437,25 @@ public final class LogEdgesTest {
             told(1, 0) = BAD; told(-1, 0) = BAD; told(MIN, 0) = BAD; told(MAX, 0) = BAD; told(0, MIN) = BAD; told(0, MAX) = BAD
             """);
         say("7: SLICES it LASTS there (no further than the LOG)", """
-            log(6, 0, 4); fault(0, 0, 3, 1); told(0, 5) = 1; fault(0, 0, 3, 2); told(1, 5) = 1; fault(0, 0, 2, 2); told(2, 5) = 2; fault(0, 0, 4, 4); told(3, 5) = 0
+            log(6, 0, 4); fault(0, 0, 3, 1); told(0, 5) = 1; fault(0, 0, 3, 2); told(1, 5) = 1; fault(0, 0, 2, 2); told(2, 5) = 2
+            fault(0, 0, 4, 4); told(3, 5) = 0
             fault(5, 0, 3, 1); told(4, 5) = 1; fault(6, 0, 4, 1); told(5, 5) = 0; fault(5, 0, 7, 1); told(6, 5) = 0; fault(2, 0, 0, 2); told(7, 5) = 4
             """, "log(6, 0, 1); fault(3, 0, 0, 1); told(0, 5) = 1; fault(4, 0, 1, 4); told(1, 5) = 0; fault(6, 0, 0, 1); told(2, 5) = 1",
-            "log(6, 0, 4); fault(2, 0, 0, 1); told(0, 5) = 2; fault(3, 0, 0, 2); told(1, 5) = 4; fault(3, 0, 0, 3); told(2, 5) = 4; fault(5, 0, 0, 1); told(3, 5) = 4");
+            """
+            log(6, 0, 4); fault(2, 0, 0, 1); told(0, 5) = 2; fault(3, 0, 0, 2); told(1, 5) = 4; fault(3, 0, 0, 3); told(2, 5) = 4
+            fault(5, 0, 0, 1); told(3, 5) = 4
+            """);
         say("7: in how many CELLS that are WOOD it is", """
-            log(2, 0, 3); fault(3, 0, 0, 4); told(0, 4) = 24; fault(0, 0, 2, 4); told(1, 4) = 6; fault(5, 0, 2, 4); told(2, 4) = 12; fault(5, 0, 3, 4); told(3, 4) = 0
+            log(2, 0, 3); fault(3, 0, 0, 4); told(0, 4) = 24; fault(0, 0, 2, 4); told(1, 4) = 6; fault(5, 0, 2, 4); told(2, 4) = 12
+            fault(5, 0, 3, 4); told(3, 4) = 0
             fault(4, 0, 0, 3); told(4, 4) = 0; fault(4, 0, 0, 2); told(5, 4) = 24; fault(6, 2, 1, 1); told(6, 4) = 4
             """, "log(6, 4, 8); fault(3, 0, 0, 4); told(0, 4) = 84   # 24 + 20 + 16 + 12 + 8 + 4");
     }
 
     private static void taken() {
         say("8: BAD: a FAULT, k", """
-            taken(0, 0) = BAD; log(6, 0, 8); taken(0, 0) = BAD; fault(0, 0, 0, 1); taken(0, -1) = BAD; taken(0, 0) = 12; taken(0, 6) = -13; taken(0, 7) = BAD
+            taken(0, 0) = BAD; log(6, 0, 8); taken(0, 0) = BAD; fault(0, 0, 0, 1); taken(0, -1) = BAD; taken(0, 0) = 12
+            taken(0, 6) = -13; taken(0, 7) = BAD
             taken(1, 0) = BAD; taken(-1, 0) = BAD; taken(1, 7) = BAD; taken(MIN, 0) = BAD; taken(0, MAX) = BAD
             """);
         d.part("8: A FAULT taken for one of KIND k, or one under that; -13");
@@ -476,7 +508,8 @@ public final class LogEdgesTest {
             cell(4, 9, 0, 2) = 0; cell(7, 9, 0, 2) = 0; cell(3, 9, 0, 2) = NONE; cell(4, 2, 0, 2) = NONE
             """);
         say("1: the TURN is one from how the LOG lay first, not on top of another", """
-            log(6, 0, 1); fault(0, 0, 0, 1); turn(1) = 0; cell(5, 11, 0, 2) = 0; turn(1) = 1; cell(5, 11, 0, 2) = 0; turn(0) = 1; cell(11, 5, 0, 2) = 0
+            log(6, 0, 1); fault(0, 0, 0, 1); turn(1) = 0; cell(5, 11, 0, 2) = 0; turn(1) = 1; cell(5, 11, 0, 2) = 0; turn(0) = 1
+            cell(11, 5, 0, 2) = 0
             """);
     }
 
@@ -516,13 +549,21 @@ public final class LogEdgesTest {
                 s.due("cell(5, 5, " + i + ", 0)", i < length ? 1 : -2);
             }
         }
-        say("11: what (0 .. 2)", "log(6, 0, 1); cell(5, 5, 0, -1) = BAD; cell(5, 5, 0, 0) = 1; cell(5, 5, 0, 1) = 0; cell(5, 5, 0, 2) = NONE; cell(5, 5, 0, 3) = BAD; cell(5, 5, 0, MAX) = BAD");
+        say("11: what (0 .. 2)", """
+            log(6, 0, 1); cell(5, 5, 0, -1) = BAD; cell(5, 5, 0, 0) = 1; cell(5, 5, 0, 1) = 0; cell(5, 5, 0, 2) = NONE
+            cell(5, 5, 0, 3) = BAD; cell(5, 5, 0, MAX) = BAD
+            """);
         say("11: STATE ahead of BAD", "cell(5, 5, 0, 0) = STATE; cell(12, 12, 8, 3) = STATE");
         say("11: the least FAULT that is in it; NONE", """
             log(6, 0, 2); fault(5, 0, 1, 4); fault(0, 0, 0, 1); fault(5, 0, 0, 4); cell(6, 5, 0, 2) = 1; cell(5, 5, 0, 2) = 2; cell(6, 5, 1, 2) = 0
             cell(0, 5, 0, 2) = NONE; cell(11, 5, 0, 2) = 1; cell(11, 5, 1, 2) = NONE; heal(0) = 2; cell(6, 5, 0, 2) = 0; cell(6, 5, 1, 2) = 1
             """);
-        say("11: HURT and FAULTS of a CELL that is not WOOD, too", "log(2, 0, 1); fault(0, 0, 0, 1); cell(11, 5, 0, 0) = 0; cell(11, 5, 0, 1) = 1; cell(11, 5, 0, 2) = 0",
-            "log(6, 0, 8); fault(0, 5, 7, 1); cell(0, 0, 7, 1) = 1; cell(0, 0, 7, 2) = 0; cell(0, 0, 6, 1) = 0; turn(1); cell(11, 0, 7, 1) = 1; turn(2); cell(11, 11, 7, 1) = 1; turn(3); cell(0, 11, 7, 1) = 1; cell(0, 11, 7, 0) = 0");
+        say("11: HURT and FAULTS of a CELL that is not WOOD, too", """
+            log(2, 0, 1); fault(0, 0, 0, 1); cell(11, 5, 0, 0) = 0; cell(11, 5, 0, 1) = 1; cell(11, 5, 0, 2) = 0
+            """,
+            """
+            log(6, 0, 8); fault(0, 5, 7, 1); cell(0, 0, 7, 1) = 1; cell(0, 0, 7, 2) = 0; cell(0, 0, 6, 1) = 0; turn(1)
+            cell(11, 0, 7, 1) = 1; turn(2); cell(11, 11, 7, 1) = 1; turn(3); cell(0, 11, 7, 1) = 1; cell(0, 11, 7, 0) = 0
+            """);
     }
 }

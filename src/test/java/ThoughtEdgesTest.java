@@ -31,6 +31,11 @@ public final class ThoughtEdgesTest {
             without(0) = NO; log(6, 0, 8); without(0) = NO; without(-1) = NO; fault(5, 0, 0, 4); fault(3, 2, 0, 4); without(-1) = NO; without(2) = NO
             without(MIN) = NO; without(MAX) = NO; heal(1); without(1) = NO; without(0) = 5472; saw(); without(0) = NO
             """);
+        say("23: what was thought of before plays no part", """
+            log(6, 0, 8); fault(5, 0, 0, 4); drawn(1, 0); heal(0); fault(3, 2, 0, 4); without(0) = 5472; fault(0, 0, 0, 1); without(0)
+            heal(1); without(0) = 5472; drawn(1, 8)
+            without(0) = 5472; heal(0); drawn(1, 0) = 5472; best(0) = 5472
+            """);
         d.part("23: WORTH of the BEST OPENING, were a FAULT none");
         for (int gone = 0; gone < 8; gone++) {
             Script s = new Script(d).run("log(6, 1, 8); turn(1)");
@@ -51,7 +56,8 @@ public final class ThoughtEdgesTest {
 
     private static void drawnNumbers() {
         say("24: n (0 .. 8)", """
-            log(6, 0, 8); drawn(1, -1) = NO; drawn(1, 0) = 5472; drawn(1, 9) = NO; drawn(1, MIN) = NO; drawn(1, MAX) = NO; drawn(MIN, -1) = NO; drawn(MAX, 9) = NO
+            log(6, 0, 8); drawn(1, -1) = NO; drawn(1, 0) = 5472; drawn(1, 9) = NO; drawn(1, MIN) = NO; drawn(1, MAX) = NO
+            drawn(MIN, -1) = NO; drawn(MAX, 9) = NO
             """);
         say("24: NO: no LOG", "drawn(1, 0) = NO; drawn(1, 1) = NO; drawn(1, 9) = NO; log(6, 0, 8); saw(); drawn(1, 0) = NO");
     }
@@ -108,12 +114,22 @@ public final class ThoughtEdgesTest {
 
     private static void chanceNumbers() {
         say("25: m seeds (1 .. 8)", """
-            log(6, 0, 8); chance(1, 0, 0, 1) = BAD; chance(1, 1, 0, 1) = 1; chance(1, 8, 0, 1) = 1; chance(1, 9, 0, 1) = BAD; chance(1, -1, 0, 1) = BAD
+            log(6, 0, 8); chance(1, 0, 0, 1) = BAD; chance(1, 1, 0, 1) = 1; chance(1, 8, 0, 1) = 1; chance(1, 9, 0, 1) = BAD
+            chance(1, -1, 0, 1) = BAD
             chance(1, MIN, 0, 1) = BAD; chance(1, MAX, 0, 1) = BAD
             """);
-        say("25: worth below 0", "log(6, 0, 8); chance(1, 1, -1, 0) = BAD; chance(1, 1, 0, 0) = 1; chance(1, 1, MIN, 0) = BAD; chance(1, 1, MAX, 0) = 0; chance(1, 1, MAX, 1) = 1");
-        say("25: part 0 above, 1 below the line", "log(6, 0, 8); chance(1, 1, 0, -1) = BAD; chance(1, 1, 0, 0) = 1; chance(1, 1, 0, 1) = 1; chance(1, 1, 0, 2) = BAD; chance(1, 1, 0, MIN) = BAD; chance(1, 1, 0, MAX) = BAD");
-        say("25: STATE ahead of BAD", "chance(1, 1, 1, 0) = STATE; chance(1, 0, 1, 0) = STATE; chance(1, 9, -1, 2) = STATE; log(6, 0, 8); saw(); chance(1, 1, 0, 0) = STATE");
+        say("25: worth below 0", """
+            log(6, 0, 8); chance(1, 1, -1, 0) = BAD; chance(1, 1, 0, 0) = 1; chance(1, 1, MIN, 0) = BAD; chance(1, 1, MAX, 0) = 0
+            chance(1, 1, MAX, 1) = 1
+            """);
+        say("25: part 0 above, 1 below the line", """
+            log(6, 0, 8); chance(1, 1, 0, -1) = BAD; chance(1, 1, 0, 0) = 1; chance(1, 1, 0, 1) = 1; chance(1, 1, 0, 2) = BAD
+            chance(1, 1, 0, MIN) = BAD; chance(1, 1, 0, MAX) = BAD
+            """);
+        say("25: STATE ahead of BAD", """
+            chance(1, 1, 1, 0) = STATE; chance(1, 0, 1, 0) = STATE; chance(1, 9, -1, 2) = STATE; log(6, 0, 8); saw()
+            chance(1, 1, 0, 0) = STATE
+            """);
     }
 
     private static void atLeast() {
@@ -126,7 +142,9 @@ public final class ThoughtEdgesTest {
             s.due("chance(" + seed + ", 1, " + (worth - 1) + ", 0)", 1);
             s.due("chance(" + seed + ", 1, " + (worth + 1) + ", 0)", 0);
         }
-        say("25: of a log that is worth nothing", "log(6, 0, 8); rule(6, 0); chance(1, 8, 0, 0) = 1; chance(1, 8, 0, 1) = 1; chance(1, 8, 1, 0) = 0; chance(1, 8, 1, 1) = 1");
+        say("25: of a log that is worth nothing", """
+            log(6, 0, 8); rule(6, 0); chance(1, 8, 0, 0) = 1; chance(1, 8, 0, 1) = 1; chance(1, 8, 1, 0) = 0; chance(1, 8, 1, 1) = 1
+            """);
     }
 
     private static void seeds() {
@@ -183,7 +201,8 @@ public final class ThoughtEdgesTest {
     private static void tellsNumbers() {
         say("26: STATE; BAD; -11, in this order", """
             tells(0, 0) = STATE; tells(4, 0) = STATE; tells(0, 3) = STATE; sheet(0, 0, 13); tells(0, 0) = STATE
-            log(6, 0, 4); tells(4, 0) = BAD; tells(-1, 0) = BAD; tells(1, 3) = BAD; tells(1, -1) = BAD; tells(1, 0) = -11; tells(1, 1) = -11; tells(1, 2) = -11
+            log(6, 0, 4); tells(4, 0) = BAD; tells(-1, 0) = BAD; tells(1, 3) = BAD; tells(1, -1) = BAD; tells(1, 0) = -11
+            tells(1, 1) = -11; tells(1, 2) = -11
             tells(0, 3) = BAD; tells(0, 0) = BAD; sheet(0, -1, 0); tells(0, 0) = -11; tells(0, 1) = -11; tells(0, 2) = -11
             sheet(3, 0, 0); tells(3, 0) = 0; tells(MIN, 0) = BAD; tells(MAX, 0) = BAD; tells(3, MIN) = BAD; tells(3, MAX) = BAD
             saw(); tells(3, 0) = STATE
@@ -223,15 +242,18 @@ public final class ThoughtEdgesTest {
             log(2, 0, 8); rule(1, 0); rule(0, 2); rule(6, 4); rule(4, 6); sheet(0, 0, 1)
             fault(6, 2, 7, 1); tells(0, 0) = 0; put(0, 0, 1); tells(0, 0) = NONE; put(0, 0, 2); tells(0, 0) = 0; heal(0)
             fault(0, 0, 0, 1); tells(0, 0) = NONE; put(0, 0, 1); tells(0, 0) = 0; put(0, 0, 3); tells(0, 0) = 0; heal(0)
-            fault(5, 0, 7, 1); tells(0, 0) = NONE; put(0, 0, 2); tells(0, 0) = 0; put(0, 0, 4); tells(0, 0) = 0; put(0, 0, 4294967299); tells(0, 0) = 0
+            fault(5, 0, 7, 1); tells(0, 0) = NONE; put(0, 0, 2); tells(0, 0) = 0; put(0, 0, 4); tells(0, 0) = 0; put(0, 0, 4294967299)
+            tells(0, 0) = 0
             sheet(0, 1, 1); put(0, 0, 4294967299); tells(0, 0) = NONE
             """);
     }
 
     private static void tellsTurns() {
         say("26: TURNS (bits) by which all would be so", """
-            log(6, 0, 8); tape "k022 h231 o061"; text() = 3; turn(2); sheet(0, 1, 3); tells(0, 0) = NONE; tells(0, 1) = 5; turn(1); tells(0, 0) = 2; tells(0, 1) = 5
-            sheet(0, 1, 2); tells(0, 0) = NONE; tells(0, 1) = 10; turn(0); tells(0, 0) = 2; tells(0, 1) = 10; sheet(0, 1, 4); tells(0, 1) = 0; count(4) = 0
+            log(6, 0, 8); tape "k022 h231 o061"; text() = 3; turn(2); sheet(0, 1, 3); tells(0, 0) = NONE; tells(0, 1) = 5; turn(1)
+            tells(0, 0) = 2; tells(0, 1) = 5
+            sheet(0, 1, 2); tells(0, 0) = NONE; tells(0, 1) = 10; turn(0); tells(0, 0) = 2; tells(0, 1) = 10; sheet(0, 1, 4)
+            tells(0, 1) = 0; count(4) = 0
             """);
     }
 
@@ -241,7 +263,8 @@ public final class ThoughtEdgesTest {
             sheet(0, 0, 12); tells(0, 2) = 1; sheet(0, 0, 6); tells(0, 2) = 2; sheet(0, 0, 4); tells(0, 2) = 4; rule(0, 1) = 1; rule(6, 16)
             sheet(0, 0, 3); tells(0, 2) = 1; sheet(0, 0, 2); tells(0, 2) = 6; rule(0, 2) = 1; tells(0, 2) = 6; rule(0, 2) = 2
             """, """
-            log(6, 0, 8); tape "k022 h231 o061"; text() = 3; sheet(0, 1, 3); tells(0, 2) = 6; turn(1); sheet(0, 1, 2); put(0, 0, 0); tells(0, 0) = NONE; rule(0, 1) = 1
+            log(6, 0, 8); tape "k022 h231 o061"; text() = 3; sheet(0, 1, 3); tells(0, 2) = 6; turn(1); sheet(0, 1, 2); put(0, 0, 0)
+            tells(0, 0) = NONE; rule(0, 1) = 1
             """);
     }
 }
