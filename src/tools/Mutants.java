@@ -1,3 +1,18 @@
+import com.sun.source.tree.BinaryTree;
+import com.sun.source.tree.CompilationUnitTree;
+import com.sun.source.tree.ConditionalExpressionTree;
+import com.sun.source.tree.ExpressionTree;
+import com.sun.source.tree.IdentifierTree;
+import com.sun.source.tree.IfTree;
+import com.sun.source.tree.MethodInvocationTree;
+import com.sun.source.tree.MethodTree;
+import com.sun.source.tree.ReturnTree;
+import com.sun.source.tree.Tree;
+import com.sun.source.tree.VariableTree;
+import com.sun.source.util.JavacTask;
+import com.sun.source.util.SourcePositions;
+import com.sun.source.util.TreeScanner;
+import com.sun.source.util.Trees;
 import java.io.IOException;
 import java.io.StringWriter;
 import java.net.URI;
@@ -12,6 +27,7 @@ import java.util.concurrent.TimeUnit;
 import java.util.function.Function;
 import java.util.regex.Matcher;
 import java.util.regex.Pattern;
+import java.util.stream.Collectors;
 import java.util.stream.Stream;
 import javax.tools.JavaCompiler;
 import javax.tools.SimpleJavaFileObject;
@@ -25,7 +41,7 @@ import javax.tools.ToolProvider;
  * tells makes no difference to any call. {@code java src/tools/Mutants.java edges PromisesTest LogEdgesTest ..}
  */
 public final class Mutants {
-    private static final Path PROGRAM = Path.of("src/main/java/LogSawyer.java"), TESTS = Path.of("src/test/java");
+    private static final Path PROGRAM = Path.of("src/main/java/LogSawyer.java"), READINGS = Path.of("src/tools/readings.txt"), TESTS = Path.of("src/test/java");
 
     // What a refused call might do by mistake.
     private static final String[] CHANGES = {"tapeSize = 0;", "if (tapeSize < 40) tapeSize++;", "tape[0] = 'o';",
@@ -54,11 +70,13 @@ public final class Mutants {
             case "edges": all.edges(); break;
             case "orders": all.orders(); break;
             case "changes": all.changes(); break;
+            case "readings": all.readings(); break;
+            case "parts": all.parts(); break;
             default:
-                System.out.println("edges, orders or changes, and the tests' names");
+                System.out.println("edges, orders, changes, readings or parts, and the tests' names");
                 System.exit(2);
         }
-        all.runAll(List.of(args).subList(1, args.length));
+        all.runAll(List.of(args).subList(1, args.length), args[0].equals("readings"));
     }
 
     private void edges() {
@@ -102,6 +120,132 @@ public final class Mutants {
             m -> Stream.of(CHANGES).map(change -> "{ " + change + " " + m.group() + " }").toList());
     }
 
+    /** Other readings of the document's sentences, each a change of the program (readings.txt). */
+    private void readings() throws IOException {
+        for (String part : Files.readString(READINGS).split("(?m)^== ")) {
+            if (part.isBlank()) {
+                continue;
+            }
+            List<String> lines = part.lines().toList();
+            Matcher m = Pattern.compile(Stream.of(side(lines, "-").trim().split("\\s+")).map(Pattern::quote).collect(Collectors.joining("\\s+"))).matcher(source);
+            if (!m.find()) {
+                System.out.println("not found: " + lines.get(0));
+                continue;
+            }
+            mutants.add(new Mutant(m.start(), lines.get(0), source.substring(0, m.start()) + side(lines, "+") + source.substring(m.end())));
+            if (m.find()) {
+                System.out.println("found twice: " + lines.get(0));
+            }
+        }
+    }
+
+    /** A part of an expression is left out, or another value of the same method stands in its place. */
+    private void parts() throws IOException {
+        JavaCompiler compiler = ToolProvider.getSystemJavaCompiler();
+        JavacTask task = (JavacTask) compiler.getTask(null, null, d -> { }, null, null, List.of(memory(source)));
+        CompilationUnitTree unit = task.parse().iterator().next();
+        SourcePositions places = Trees.instance(task).getSourcePositions();
+        new TreeScanner<Void, List<String>>() {
+            @Override
+            public Void visitMethod(MethodTree method, List<String> outer) {
+                List<String> names = new ArrayList<>();
+                method.getParameters().stream().filter(p -> p.getType().toString().equals("int")).forEach(p -> names.add(p.getName().toString()));
+                new TreeScanner<Void, Void>() {
+                    @Override
+                    public Void visitVariable(VariableTree v, Void none) {
+                        if (v.getType() != null && v.getType().toString().equals("int") && !names.contains(v.getName().toString())) {
+                            names.add(v.getName().toString());
+                        }
+                        return super.visitVariable(v, none);
+                    }
+                }.scan(method.getBody(), null);
+                return scan(method.getBody(), names);
+            }
+
+            @Override
+            public Void visitIdentifier(IdentifierTree id, List<String> names) {
+                String name = id.getName().toString();
+                if (names != null && names.contains(name)) {
+                    names.stream().filter(other -> !other.equals(name)).forEach(other -> put(id, other));
+                } else if (name.matches("[A-Z][A-Z_]+") && !name.startsWith("ANGLE_") && !name.equals("LETTERS") && !name.startsWith("RULE_")) {
+                    put(id, "(" + name + " + 1)");
+                    put(id, "(" + name + " - 1)");
+                }
+                return null;
+            }
+
+            @Override
+            public Void visitBinary(BinaryTree b, List<String> names) {
+                put(b, text(b.getLeftOperand()));
+                put(b, text(b.getRightOperand()));
+                return super.visitBinary(b, names);
+            }
+
+            @Override
+            public Void visitConditionalExpression(ConditionalExpressionTree c, List<String> names) {
+                put(c, text(c.getTrueExpression()));
+                put(c, text(c.getFalseExpression()));
+                return super.visitConditionalExpression(c, names);
+            }
+
+            @Override
+            public Void visitIf(IfTree one, List<String> names) {
+                put(one.getCondition(), "(1 == 1)");
+                put(one.getCondition(), "(1 == 0)");
+                return super.visitIf(one, names);
+            }
+
+            @Override
+            public Void visitReturn(ReturnTree r, List<String> names) {
+                if (r.getExpression() != null) {
+                    for (String other : List.of("0", "1", "null", "true", "false", "this")) {
+                        put(r.getExpression(), other);
+                    }
+                }
+                return super.visitReturn(r, names);
+            }
+
+            @Override
+            public Void visitMethodInvocation(MethodInvocationTree call, List<String> names) {
+                List<? extends ExpressionTree> all = call.getArguments();
+                for (int i = 0; i < all.size(); i++) {
+                    for (int k = i + 1; k < all.size(); k++) {
+                        int a = start(all.get(i)), b = end(all.get(i)), c = start(all.get(k)), e = end(all.get(k));
+                        add(a, e, text(all.get(k)) + source.substring(b, c) + text(all.get(i)));
+                    }
+                }
+                return super.visitMethodInvocation(call, names);
+            }
+
+            private int start(Tree one) {
+                return (int) places.getStartPosition(unit, one);
+            }
+
+            private int end(Tree one) {
+                return (int) places.getEndPosition(unit, one);
+            }
+
+            private String text(Tree one) {
+                return source.substring(start(one), end(one));
+            }
+
+            private void put(Tree one, String other) {
+                add(start(one), end(one), other);
+            }
+
+            private void add(int start, int end, String other) {
+                String was = source.substring(start, end);
+                if (!was.equals(other)) {
+                    mutants.add(new Mutant(start, was.replaceAll("\\s+", " ") + " -> " + other.replaceAll("\\s+", " "), source.substring(0, start) + other + source.substring(end)));
+                }
+            }
+        }.scan(unit, null);
+    }
+
+    private static String side(List<String> lines, String sign) {
+        return lines.stream().skip(1).filter(l -> l.startsWith(sign)).map(l -> l.substring(1)).collect(Collectors.joining("\n"));
+    }
+
     private void replace(String what, Function<Matcher, List<String>> by) {
         Matcher m = Pattern.compile(what).matcher(source);
         while (m.find()) {
@@ -120,7 +264,7 @@ public final class Mutants {
         return (int) source.substring(0, at).chars().filter(c -> c == '\n').count() + 1;
     }
 
-    private void runAll(List<String> tests) throws Exception {
+    private void runAll(List<String> tests, boolean readings) throws Exception {
         Path classes = Files.createTempDirectory("tests");
         try (Stream<Path> files = Files.list(TESTS)) {
             List<String> arguments = new ArrayList<>(List.of("-encoding", "UTF-8", "-d", classes.toString(), PROGRAM.toString()));
@@ -134,7 +278,11 @@ public final class Mutants {
         }
         int seen = 0;
         for (int i = 0; i < mutants.size(); i++) {
-            if (ends.get(i).get().equals("unseen")) {
+            String end = ends.get(i).get();
+            if (end.equals("no program") && readings) {
+                System.out.println("no program: " + mutants.get(i).what);
+            }
+            if (end.equals("unseen")) {
                 int line = lineOf(mutants.get(i).at);
                 System.out.println(line + ": " + mutants.get(i).what + "   | " + source.split("\n")[line - 1].trim());
             } else {
@@ -173,14 +321,18 @@ public final class Mutants {
 
     private static boolean compile(String text, Path place) throws IOException {
         JavaCompiler compiler = ToolProvider.getSystemJavaCompiler();
-        SimpleJavaFileObject file = new SimpleJavaFileObject(URI.create("string:///LogSawyer.java"), SimpleJavaFileObject.Kind.SOURCE) {
+        try (StandardJavaFileManager files = compiler.getStandardFileManager(null, null, null)) {
+            files.setLocation(StandardLocation.CLASS_OUTPUT, List.of(place.toFile()));
+            return compiler.getTask(new StringWriter(), files, d -> { }, List.of("-nowarn"), null, List.of(memory(text))).call();
+        }
+    }
+
+    private static SimpleJavaFileObject memory(String text) {
+        return new SimpleJavaFileObject(URI.create("string:///LogSawyer.java"), SimpleJavaFileObject.Kind.SOURCE) {
+            @Override
             public CharSequence getCharContent(boolean ignored) {
                 return text;
             }
         };
-        try (StandardJavaFileManager files = compiler.getStandardFileManager(null, null, null)) {
-            files.setLocation(StandardLocation.CLASS_OUTPUT, List.of(place.toFile()));
-            return compiler.getTask(new StringWriter(), files, d -> { }, List.of("-nowarn"), null, List.of(file)).call();
-        }
     }
 }

@@ -86,6 +86,10 @@ public final class BoardEdgesTest {
             """, """
             log(6, 0, 8); rule(3, 0); rule(4, 0); rule(5, 0); fault(3, 2, 0, 4); fault(3, 2, 4, 4)
             fault(0, 4, 0, 1); board(5, 2, 0) = 7; board(5, 2, 1) = 11   # to the last column
+            """, """
+            log(6, 0, 8); rule(3, 0); rule(4, 0); rule(5, 0); fault(4, 0, 0, 4); fault(4, 0, 6, 4)
+            board(5, 2, 0) = 3; board(5, 2, 1) = 8; board(5, 2, 2) = 0; board(5, 2, 3) = 7; worth(5, 2) = 864   # within a ring: from both sides
+            board(2, 1, 0) = 1; board(2, 1, 1) = 2; board(8, 1, 0) = 4; board(8, 1, 1) = 7
             """);
         say("2: not both ways: a few columns of a few slices can't be had", """
             log(6, 0, 8); rule(3, 0); rule(4, 0); rule(5, 0); fault(3, 2, 0, 2); fault(5, 0, 4, 4)

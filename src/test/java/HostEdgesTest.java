@@ -17,6 +17,7 @@ public final class HostEdgesTest {
         putBits();
         copyNumbers();
         copyPlaces();
+        copyNothing();
         copyInItself();
         d.end("HostEdgesTest");
     }
@@ -79,6 +80,16 @@ public final class HostEdgesTest {
             met(1) = 10; serve() = 1; stack(0, 1) = 4; stack(1, 1) = 10
             """,
             "image(); order(1, 0, 1, 1) = 0; back(); count(2) = 0; order(1, 0, 1, 1) = 0");
+        say("27: each BOARD, each ORDER to the brim", ZEROS + """
+            saw() = 12; log(2, 0, 1); saw() = 4; order(4, 3, 1, 1); order(4, 3, 1, 1); order(4, 3, 1, 1); order(4, 3, 1, 1)
+            order(4, 3, 1, 1); order(1, 0, 12, 4) = 5; image() = 0; serve() = 1; order(3, 0, 8, 8) = 5; met(0) = 0; back() = 0
+            count(2) = 6; met(0) = 32; met(1) = 4
+            stack(15, 0) = 1; stack(15, 1) = 2; stack(15, 2) = 1; stack(15, 3) = 0; stack(12, 1) = 2; stack(11, 2) = 4
+            """, ZEROS + """
+            saw() = 12; log(2, 0, 1); saw() = 4; image(); order(1, 0, 1, 1); order(1, 0, 1, 1); order(1, 0, 1, 1); order(1, 0, 1, 1)
+            order(1, 0, 1, 1); order(1, 0, 1, 1); serve() = 6; rule(6, 4); log(6, 0, 2); saw() = 6; stack(15, 0) = 2; back()
+            stack(15, 0) = 1; stack(15, 1) = 2; stack(15, 2) = 1; stack(10, 0) = 1; stack(10, 2) = 4; count(2) = 0
+            """);
         say("27: not SHEETS", """
             sheet(0, 0, 3); image(); sheet(0, -1, 0); back(); put(0, 0, 1) = -11; sheet(1, 1, 2); back(); put(1, 1, 1) = 1
             put(1, 2, 1) = -12
@@ -259,6 +270,17 @@ public final class HostEdgesTest {
             copy(0, 3, 1, 0, 2) = 2; tells(1, 0) = 1; put(1, 1, 0); tells(1, 0) = NONE; copy(0, 4, 1, 11, 1) = 1; tells(1, 0) = 11
             copy(0, 0, 1, 8, 4) = 4; tells(1, 0) = NONE
             tells(0, 0) = 4; copy(0, 4, 1, 0, 0) = 0; tells(1, 0) = NONE
+            """);
+    }
+
+    private static void copyNothing() {
+        say("32: -12: none of them comes, also of those that have a place", ZEROS + """
+            sheet(0, 0, 12); sheet(1, 0, 12); put(0, 11, 1); put(0, 0, 1); copy(0, 11, 1, 0, 2) = -12; copy(0, 0, 1, 11, 2) = -12
+            copy(0, 11, 1, 11, 2) = -12; copy(0, 0, 1, 0, 13) = -12; tells(1, 0) = NONE; copy(0, 0, 1, 11, 1) = 1; tells(1, 0) = 11
+            """);
+        say("32: they stay in the one", ZEROS + """
+            sheet(0, 0, 12); sheet(1, 0, 12); put(0, 4, 1); copy(0, 0, 1, 0, 12) = 12; tells(0, 0) = 4; tells(1, 0) = 4
+            put(0, 4, 0); tells(0, 0) = NONE; tells(1, 0) = 4
             """);
     }
 

@@ -27,6 +27,7 @@ public final class LogEdgesTest {
         heal();
         told();
         taken();
+        takenOfASlice();
         turns();
         rules();
         cells();
@@ -482,6 +483,13 @@ public final class LogEdgesTest {
                 }
             }
         }
+    }
+
+    private static void takenOfASlice() {
+        say("8: of a SLICE, however many it LASTS in", """
+            log(2, 0, 8); fault(2, 0, 0, 2); taken(0, 0) = 24; taken(0, 1) = 24; taken(0, 2) = 24; fault(5, 0, 3, 2); taken(1, 5) = 12
+            fault(4, 0, 1, 4); taken(2, 3) = 28; log(2, 0, 1); fault(2, 0, 0, 2); taken(0, 2) = 24; fault(2, 0, 7, 2); taken(1, 2) = 24
+            """);
     }
 
     private static void turns() {

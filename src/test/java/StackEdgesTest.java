@@ -20,6 +20,7 @@ public final class StackEdgesTest {
         can();
         serveNone();
         serveLeast();
+        serveByTurn();
         serveAnew();
         d.end("StackEdgesTest");
     }
@@ -224,6 +225,20 @@ public final class StackEdgesTest {
             order(1, 0, 1, 1) = 0; serve() = 1; count(1) = 0
             """, FOUR + "order(1, 0, 2, 1); order(1, 0, 2, 1); order(1, 0, 4, 1); order(1, 0, 1, 1); serve() = 4; count(1) = 0",
             FOUR + "order(1, 0, 2, 1); order(1, 0, 1, 1); order(1, 0, 4, 1); serve() = 3; count(1) = 1; stack(0, 1) = 2   # 0; 1; 2");
+    }
+
+    private static void serveByTurn() {
+        // Thickness 4 alone: 6 columns of 4 slices, 6 of 1, 2 of 4.
+        String three = "rule(0, 2); rule(6, 16); log(3, 0, 4); saw() = 1; log(3, 0, 1); saw() = 1; log(2, 0, 4); saw() = 1\n";
+        say("22: by turn: ORDER 0 has the least BOARD ahead of the others", three + """
+            order(4, 0, 6, 1); order(4, 0, 2, 4); serve() = 2; count(1) = 1; stack(0, 1) = 6; stack(0, 2) = 1   # 0; 2
+            """, three + """
+            order(4, 0, 2, 4); order(4, 0, 6, 1); serve() = 2; count(1) = 1; stack(0, 1) = 2; stack(0, 2) = 4   # 0; 1
+            """, three + """
+            order(4, 0, 6, 1); order(4, 0, 6, 1); order(4, 0, 2, 4); serve() = 3; count(1) = 0                  # 0; 1; 2
+            """, three + """
+            order(4, 0, 6, 1); order(4, 0, 6, 4); order(4, 0, 2, 4); met(0) = 7; met(1) = 3; serve() = 3        # 1, not 0; 0; 2
+            """);
     }
 
     private static void serveAnew() {

@@ -265,6 +265,10 @@ public final class ThoughtEdgesTest {
             """, """
             log(6, 0, 8); tape "k022 h231 o061"; text() = 3; sheet(0, 1, 3); tells(0, 2) = 6; turn(1); sheet(0, 1, 2); put(0, 0, 0)
             tells(0, 0) = NONE; rule(0, 1) = 1
+            """, """
+            log(6, 0, 8); tape "k022 h231 o061"; text() = 3; sheet(0, 1, 2); tells(0, 2) = 0; sheet(1, 1, 3); tells(1, 2) = 6
+            turn(1); tells(0, 2) = 6; tells(1, 2) = 0; turn(2); tells(0, 2) = 0; tells(1, 2) = 6; turn(3); tells(0, 2) = 6
+            sheet(2, 0, 5); put(2, 2, 1); tells(2, 2) = 1; turn(0); tells(2, 2) = 0
             """);
     }
 }
