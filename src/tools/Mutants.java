@@ -38,7 +38,8 @@ import javax.tools.ToolProvider;
 /**
  * Breaks LogSawyer in one place at a time, runs tests, and tells which breaks no test has seen: edges off by one,
  * refusals in another order, refused calls that change something. It is no test: it takes minutes, and some of what it
- * tells makes no difference to any call. {@code java src/tools/Mutants.java edges PromisesTest LogEdgesTest ..}
+ * tells makes no difference to any call. {@code java src/tools/Mutants.java edges PromisesTest LogEdgesTest ..}, or of
+ * some lines of the program alone: {@code edges@149,158}.
  */
 public final class Mutants {
     private static final Path PROGRAM = Path.of("src/main/java/LogSawyer.java"), READINGS = Path.of("src/tools/readings.txt"), TESTS = Path.of("src/test/java");
@@ -66,7 +67,8 @@ public final class Mutants {
 
     public static void main(String[] args) throws Exception {
         Mutants all = new Mutants(Files.readString(PROGRAM));
-        switch (args.length < 2 ? "" : args[0]) {
+        String[] way = args.length < 2 ? new String[] {""} : args[0].split("@");
+        switch (way[0]) {
             case "edges": all.edges(); break;
             case "orders": all.orders(); break;
             case "changes": all.changes(); break;
@@ -76,7 +78,11 @@ public final class Mutants {
                 System.out.println("edges, orders, changes, readings or parts, and the tests' names");
                 System.exit(2);
         }
-        all.runAll(List.of(args).subList(1, args.length), args[0].equals("readings"));
+        if (way.length > 1) {
+            List<String> lines = List.of(way[1].split(","));
+            all.mutants.removeIf(m -> !lines.contains(Integer.toString(all.lineOf(m.at))));
+        }
+        all.runAll(List.of(args).subList(1, args.length), way[0].equals("readings"));
     }
 
     private void edges() {

@@ -118,6 +118,31 @@ public final class BoardEdgesTest {
             rule(4, 4); board(5, 2, 3) = 1; board(5, 2, 4) = 0; worth(5, 2) = 480
             rule(4, 6); board(5, 2, 3) = 3; worth(5, 2) = 576
             """);
+        // Each piece of rows 5, 6 is of grade 1, 2, 3, and that one has the best price.
+        say("2: of most WORTH, where not GRADE 0 has the best PRICE", """
+            log(6, 0, 8); rule(2, 1); rule(3, 99); rule(4, 1); fault(6, 1, 0, 1); board(5, 2, 3) = 7; board(5, 2, 4) = 1; worth(5, 2) = 19008
+            board(5, 2, 0) = 0; board(5, 2, 1) = 11
+            """, """
+            log(6, 0, 8); rule(2, 1); rule(3, 1); rule(4, 99); fault(0, 0, 0, 4); fault(0, 0, 4, 4); board(5, 2, 2) = 0; board(5, 2, 3) = 7
+            board(5, 2, 0) = 0; board(5, 2, 1) = 11; board(5, 2, 4) = 2; worth(5, 2) = 19008
+            """, """
+            log(6, 0, 8); rule(2, 1); rule(3, 1); rule(4, 1); rule(5, 99); fault(0, 0, 0, 4); fault(0, 0, 4, 4); fault(0, 4, 0, 4); fault(0, 4, 4, 4)
+            board(5, 2, 2) = 0; board(5, 2, 3) = 7; board(5, 2, 0) = 0; board(5, 2, 1) = 11; board(5, 2, 4) = 3; worth(5, 2) = 19008
+            """);
+        say("2: of most WORTH: a small PIECE of a better PRICE", """
+            log(2, 0, 1); rule(2, 6); fault(1, 0, 0, 1); board(4, 4, 0) = 5; board(4, 4, 1) = 5; board(4, 4, 4) = 0; worth(4, 4) = 24   # the whole one: 8
+            rule(2, 2); board(4, 4, 1) = 6; board(4, 4, 4) = 3; worth(4, 4) = 8; rule(2, 3); board(4, 4, 1) = 5; worth(4, 4) = 12
+            """, """
+            log(2, 0, 1); rule(2, 6); fault(1, 4, 0, 1); board(4, 4, 0) = 6; board(4, 4, 1) = 6; board(4, 4, 4) = 0; worth(4, 4) = 24
+            """);
+        say("12: HURT of the FACES of the PIECE, not of what is cut off", """
+            log(6, 0, 8); fault(2, 3, 0, 4); fault(2, 6, 0, 2); fault(0, 0, 3, 1); board(5, 2, 0) = 5; board(5, 2, 1) = 11; board(5, 2, 2) = 0
+            board(5, 2, 3) = 7; board(5, 2, 4) = 2; board(5, 2, 5) = 28; board(5, 2, 6) = 22
+            """, """
+            log(6, 0, 8); fault(2, 4, 0, 2); fault(6, 2, 0, 2); fault(0, 0, 3, 1); board(5, 2, 0) = 6; board(5, 2, 1) = 11
+            board(5, 2, 4) = 2; board(5, 2, 5) = 6; board(5, 2, 6) = 20; turn(2); board(5, 2, 0) = 0; board(5, 2, 1) = 5; board(5, 2, 5) = 20
+            board(5, 2, 6) = 6
+            """);
         say("12: HURT of the upper FACE, of the lower one", """
             log(6, 0, 8); rule(1, 0); fault(6, 2, 4, 1); board(5, 2, 4) = 1; board(5, 2, 5) = 0; board(5, 2, 6) = 8
             turn(2); board(5, 2, 5) = 8; board(5, 2, 6) = 0; board(5, 1, 5) = 8; board(5, 1, 6) = 8; board(6, 1, 5) = 0; turn(0)
@@ -132,6 +157,13 @@ public final class BoardEdgesTest {
             log(6, 0, 6); fault(3, 2, 0, 1); rule(2, 2); rule(3, 0); rule(4, 1); board(5, 2, 2) = 0; board(5, 2, 3) = 5
             board(5, 2, 4) = 2; worth(5, 2) = 144
             rule(2, 3); board(5, 2, 2) = 3; worth(5, 2) = 216   # 72 by 1 was ahead of 36 by 2
+            """);
+        say("2: of several of most AREA: of any GRADE, at any row", """
+            log(6, 0, 8); rule(2, 1); rule(3, 0); rule(4, 0); rule(5, 2); fault(0, 0, 0, 2); fault(0, 4, 0, 2)   # slices 0 .. 2: 36 of grade 3
+            board(5, 2, 2) = 2; board(5, 2, 3) = 7; board(5, 2, 4) = 0; worth(5, 2) = 144; rule(5, 3); board(5, 2, 3) = 2; worth(5, 2) = 216
+            """, """
+            log(6, 0, 8); rule(2, 2); rule(3, 0); rule(4, 1); rule(5, 0); fault(0, 6, 4, 4)   # slices 0 .. 3: 16 of grade 0
+            board(0, 1, 2) = 0; board(0, 1, 3) = 7; board(0, 1, 4) = 2; worth(0, 1) = 32; rule(2, 3); board(0, 1, 3) = 3; worth(0, 1) = 48
             """);
         say("2: of several the first by s", """
             log(6, 0, 7); rule(3, 0); rule(4, 0); rule(5, 0); fault(3, 0, 2, 1); board(5, 2, 2) = 0; board(5, 2, 3) = 1
@@ -258,6 +290,20 @@ public final class BoardEdgesTest {
             graded(6, 2, 6, 6, 7) = 1; graded(6, 2, 6, 6, 6) = 2     # the upper face is the worse
             graded(5, 2, 0, 6, 7) = 2; graded(6, 1, 0, 6, 7) = 2     # both faces 1 of 56: BETTER is not 0
             """);
+        // A rot in columns 5, 6 of rows 5, 6 in slice 7; knots of angles 4, 0 in columns 0 .. 5, 6 .. 11.
+        say("2: GRADE 2: a HURT of 9 counts in the PIECE alone", """
+            log(6, 0, 8); fault(5, 0, 7, 1); fault(0, 0, 7, 1); fault(0, 4, 7, 1)
+            graded(5, 2, 7, 11, 7) = 2; graded(5, 2, 0, 4, 7) = 2; graded(5, 2, 8, 11, 23) = 2; graded(5, 2, 3, 4, 23) = 2   # 5, 5, 4, 2 beside the rot
+            graded(5, 2, 6, 11, 7) = 3; graded(5, 2, 0, 5, 7) = 3; graded(5, 2, 0, 11, 7) = 3   # 14 of 48, 14 of 48, 28 of 96: at its edge, in it
+            graded(4, 2, 6, 11, 7) = 3; graded(6, 2, 6, 11, 7) = 3; graded(6, 2, 0, 5, 7) = 3; graded(4, 2, 7, 11, 7) = 1   # of one face
+            graded(6, 2, 7, 11, 7) = 1; graded(5, 2, 0, 11, 6) = 0
+            """, """
+            log(6, 0, 8); fault(5, 0, 7, 1); graded(5, 2, 6, 11, 7) = 3; graded(5, 2, 0, 5, 7) = 3; graded(5, 2, 5, 10, 7) = 3   # 9, 9, 18
+            graded(6, 1, 6, 11, 7) = 3; graded(5, 1, 0, 5, 7) = 3; graded(7, 1, 0, 11, 7) = 0
+            """, """
+            log(6, 0, 8); fault(3, 0, 7, 4); graded(5, 2, 0, 11, 7) = 2; graded(5, 2, 0, 2, 7) = 2; graded(5, 2, 9, 11, 7) = 2   # of 3s, that make 9
+            log(6, 0, 8); fault(1, 0, 7, 1); fault(3, 2, 7, 4); graded(5, 2, 4, 8, 7) = 2; graded(4, 2, 3, 8, 7) = 2             # 3 3 2 2, 3 3 2 2
+            """);
         say("2: GRADE 2: no CELL of the FACES has a HURT of 9; 2 times WORSE at most AREA", """
             log(6, 0, 8); fault(0, 0, 0, 1)
             graded(5, 2, 6, 6, 1) = 2; graded(5, 2, 6, 6, 0) = 3     # 1 of 2, of 1
@@ -276,6 +322,12 @@ public final class BoardEdgesTest {
             log(6, 0, 8); fault(5, 0, 7, 1); graded(5, 2, 0, 8, 55) = 3; graded(5, 2, 5, 6, 63) = 4    # 18 of 18, of 2
             graded(5, 2, 5, 5, 7) = 4; graded(5, 2, 4, 5, 39) = 4; graded(5, 2, 3, 5, 47) = 3          # 9 of 8, of 8, of 9
             graded(5, 2, 4, 5, 31) = 3; graded(4, 2, 5, 6, 63) = 3                                     # 9 of 10; BETTER is 0
+            """, """
+            log(6, 0, 8); fault(3, 0, 0, 4); graded(4, 2, 0, 11, 5) = 3; graded(6, 2, 0, 11, 5) = 3    # 0 and 216 of 72: the lower, the upper
+            graded(5, 2, 0, 11, 5) = 4; graded(5, 1, 0, 11, 5) = 4; graded(4, 4, 0, 11, 5) = 0
+            """, """
+            log(6, 0, 8); fault(3, 0, 0, 1); fault(0, 2, 0, 4); fault(0, 6, 0, 4); graded(6, 2, 4, 7, 0) = 3; graded(4, 2, 4, 7, 0) = 3   # 12 and 4, 4 and 12 of 4
+            fault(1, 2, 0, 1); fault(1, 6, 0, 1); graded(6, 2, 4, 7, 0) = 4; graded(4, 2, 4, 7, 0) = 4   # 12 and 8, 8 and 12 of 4
             """);
     }
 
@@ -342,6 +394,11 @@ public final class BoardEdgesTest {
     }
 
     private static void openingNumbers() {
+        say("15: as the LOG lies, not by the BEST TURN", """
+            log(6, 0, 8); tape "k022 h231 o061"; text() = 3; bestTurn() = 1; opening(-1, 0) = 3; opening(0, 0) = 1; opening(2, 1) = 2
+            turn(1); opening(-1, 0) = 2; opening(0, 0) = 2; opening(1, 0) = 7; opening(1, 1) = 3; turn(2); opening(-1, 0) = 3
+            best(-1) = 3240; opening(-1, 0) = 3; opening(0, 0) = 1; turn(0); bestTurn() = 1; opening(1, 0) = 5; saw() = 3
+            """);
         say("15: how many BOARDS (k -1; a what that is none is refused, too)", """
             log(6, 0, 8); opening(-1, 0) = 3; opening(-1, 2) = 3; opening(-1, 3) = BAD; opening(-1, -1) = BAD; opening(-1, MIN) = BAD
             opening(-1, MAX) = BAD

@@ -185,6 +185,28 @@ public final class HostEdgesTest {
             put(0, 11, 1); sheet(0, -1, 0); sheet(0, 0, 12); tells(0, 0) = NONE; put(0, 11, 1); sheet(0, 0, 3); sheet(0, 0, 12)
             tells(0, 0) = NONE; put(0, 5, 3); sheet(0, 1, 12); tells(0, 0) = NONE
             """);
+        d.part("30: all 0, of each SHEET; the others stay");
+        for (int sheet = 0; sheet < 4; sheet++) {
+            int other = (sheet + 1) % 4, ahead = (sheet + 3) % 4;
+            String anew = "sheet(" + sheet + ", 0, 40); ";
+            Script s = new Script(d).run(ZEROS + anew + "sheet(" + other + ", 0, 12); sheet(" + ahead + ", 0, 40)");
+            for (int i = 0; i < 40; i++) {
+                s.ask("put(" + sheet + ", " + i + ", 1)");
+                s.ask("put(" + ahead + ", " + i + ", 1)");
+            }
+            // Twelve items each come to the next sheet, which tells them.
+            for (int from : new int[] {0, 12, 24, 28}) {
+                s.run("copy(" + sheet + ", " + from + ", " + other + ", 0, 12) = 12; tells(" + other + ", 0) = 0");
+            }
+            s.run(anew);
+            for (int from : new int[] {0, 12, 24, 28}) {
+                s.run("copy(" + sheet + ", " + from + ", " + other + ", 0, 12) = 12; tells(" + other + ", 0) = NONE");
+                for (int at = 0; at < 12; at++) {
+                    s.run("copy(" + ahead + ", " + (from + at) + ", " + other + ", " + at + ", 1) = 1; tells(" + other + ", 0) = " + at);
+                    s.run("put(" + other + ", " + at + ", 0)");
+                }
+            }
+        }
         say("30: each SHEET is a row of its own", ZEROS + """
             sheet(0, 0, 40); sheet(1, 1, 12); sheet(2, 0, 40); sheet(3, 0, 12); put(0, 39, 1); put(2, 0, 1); put(2, 39, 1)
             tells(1, 0) = NONE; tells(3, 0) = NONE

@@ -26,6 +26,7 @@ public final class LogEdgesTest {
         hurts();
         heal();
         told();
+        toldOfEach();
         taken();
         takenOfASlice();
         turns();
@@ -450,7 +451,37 @@ public final class LogEdgesTest {
             log(2, 0, 3); fault(3, 0, 0, 4); told(0, 4) = 24; fault(0, 0, 2, 4); told(1, 4) = 6; fault(5, 0, 2, 4); told(2, 4) = 12
             fault(5, 0, 3, 4); told(3, 4) = 0
             fault(4, 0, 0, 3); told(4, 4) = 0; fault(4, 0, 0, 2); told(5, 4) = 24; fault(6, 2, 1, 1); told(6, 4) = 4
-            """, "log(6, 4, 8); fault(3, 0, 0, 4); told(0, 4) = 84   # 24 + 20 + 16 + 12 + 8 + 4");
+            """, "log(6, 4, 8); fault(3, 0, 0, 4); told(0, 4) = 84   # 24 + 20 + 16 + 12 + 8 + 4",
+            """
+            log(6, 4, 8); fault(3, 2, 2, 1); told(0, 4) = 36; fault(3, 0, 5, 1); told(1, 4) = 12; fault(0, 0, 1, 2); told(2, 4) = 18   # 16 + 12 + 8; 4 + 4 + 4; 10 + 8
+            fault(5, 0, 0, 4); told(3, 4) = 212   # 52 + 52 + 52 + 32 + 12 + 4 + 4 + 4
+            """);
+    }
+
+    private static void toldOfEach() {
+        d.part("7: KIND, ANGLE, SLICE, SIZE, HURTS of each FAULT, told by numbers or on the tape");
+        String letters = "klshrot";
+        int[] hurts = {1, 2, 2, 3, 4, 9, 1};
+        for (int kind = 0; kind < 7; kind++) {
+            for (int angle = 0; angle < 8; angle++) {
+                Script s = new Script(d);
+                for (int k = 0; k < 8; k++) {
+                    // Slices and sizes by turn, so that none goes along with another.
+                    int slice = (angle + 3 * k) % 8, size = (kind + angle + k) % 4 + 1;
+                    s.ask("log(5, 1, 7)");
+                    s.due("fault(" + kind + ", " + angle + ", " + slice + ", " + size + ")", 0);
+                    s.ask("tape \"" + letters.charAt(kind) + angle + slice + size + "\"");
+                    s.due("text()", 2);
+                    for (int f = 0; f < 2; f++) {
+                        s.due("told(" + f + ", 0)", kind);
+                        s.due("told(" + f + ", 1)", angle);
+                        s.due("told(" + f + ", 2)", slice);
+                        s.due("told(" + f + ", 3)", size);
+                        s.due("told(" + f + ", 6)", hurts[kind]);
+                    }
+                }
+            }
+        }
     }
 
     private static void taken() {

@@ -99,6 +99,7 @@ public final class RefusalsTest {
         onlyOneIsFull();
         tapeGoesAlone();
         onlyAsked();
+        askedBetween();
         d.end("RefusalsTest");
     }
 
@@ -210,7 +211,36 @@ public final class RefusalsTest {
             Script s = new Script(d).run(SOME);
             s.ask(call);
             dueLook(s, stays, true);
+            // Once more where much was asked ahead.
+            Script again = new Script(d).run(SOME + "opening(-1, 0); best(-1); met(0); count(6); worth(5, 2)");
+            again.ask(call);
+            dueLook(again, stays, true);
         }
+    }
+
+    /** The opening, and what is told of its boards, whatever is asked of others between. */
+    private static void askedBetween() {
+        d.part("what is asked of a board changes nothing");
+        Script s = new Script(d).run("log(6, 1, 8); rule(0, 0); rule(6, 14); fault(0, 0, 2, 2); fault(3, 2, 3, 1); fault(5, 0, 6, 1); fault(2, 5, 0, 3)");
+        long[] was = openingOf(s);
+        for (int y = 0; y < 12; y++) {
+            for (int n = 1; n <= 4 && y + n <= 12; n++) {
+                s.ask("board(" + y + ", " + n + ", 4)");
+                long[] is = openingOf(s);
+                for (int i = 0; i < was.length; i++) {
+                    due("opening behind board(" + y + ", " + n + ", 4)", is[i], was[i]);
+                }
+            }
+        }
+    }
+
+    /** Rows and grades of its boards. */
+    private static long[] openingOf(Script s) {
+        long[] all = new long[10];
+        for (int i = 0; i < all.length; i++) {
+            all[i] = s.ask("opening(" + i / 2 + ", " + 2 * (i % 2) + ")");
+        }
+        return all;
     }
 
     private static List<String> lookAt(String state) {

@@ -17,10 +17,12 @@ public final class StackEdgesTest {
         metNumbers();
         meets();
         meetsGrade();
+        meetsEach();
         can();
         serveNone();
         serveLeast();
         serveByTurn();
+        serveLast();
         serveAnew();
         d.end("StackEdgesTest");
     }
@@ -195,6 +197,31 @@ public final class StackEdgesTest {
             """);
     }
 
+    /** What is asked of one BOARD, not of the first one; the first is no better, then no worse. */
+    private static void meetsEach() {
+        say("2: MEETS: each BOARD by its own SLICES and COLUMNS", """
+            rule(0, 2); rule(6, 16); log(3, 0, 4); saw() = 1; log(3, 0, 1); saw() = 1; log(2, 0, 4); saw() = 1   # 6 by 4, 6 by 1, 2 by 4
+            order(4, 0, 6, 2) = 0; met(1) = 1; serve() = 1; stack(0, 2) = 1; order(4, 0, 1, 2) = 0; met(1) = 1; serve() = 1; count(1) = 1
+            stack(0, 1) = 6
+            """, """
+            rule(0, 2); rule(6, 16); log(3, 0, 1); saw() = 1; log(2, 0, 4); saw() = 1; log(3, 0, 4); saw() = 1   # 6 by 1, 2 by 4, 6 by 4
+            order(4, 0, 6, 2) = 0; met(1) = 1; serve() = 1; count(1) = 2; stack(1, 1) = 2; order(4, 0, 1, 2) = 0; met(1) = 1
+            order(4, 0, 3, 1) = 1; met(0) = 3; met(1) = 2
+            """);
+        String fair = "log(2, 0, 8); saw() = 1\n", poor = "log(2, 0, 8); fault(5, 0, 7, 1); saw() = 1\n";
+        String rules = "rule(1, 0); rule(0, 2); rule(6, 4)\n";
+        say("2: MEETS: each BOARD by its own GRADE; 22: what is left keeps its own", rules + fair + poor + """
+            stack(0, 3) = 0; stack(1, 3) = 3; order(2, 1, 4, 8) = 0; order(2, 0, 4, 8) = 1; met(0) = 1; met(1) = 1
+            serve() = 1; stack(0, 3) = 3; count(1) = 1; met(0) = 0
+            """, rules + poor + fair + """
+            stack(0, 3) = 3; stack(1, 3) = 0; order(2, 1, 4, 8) = 0; met(1) = 1; serve() = 1; stack(0, 3) = 3; count(1) = 1
+            """, rules + fair + """
+            order(2, 0, 4, 8) = 0; order(2, 3, 4, 8) = 1; met(0) = 1; serve() = 1; count(2) = 1
+            """ + poor + "met(0) = 1; serve() = 1", rules + fair + """
+            order(2, 3, 4, 8) = 0; order(2, 0, 4, 8) = 1; met(0) = 1; serve() = 1; count(2) = 1
+            """ + poor + "met(0) = 0; met(1) = 0; serve() = 0");
+    }
+
     private static void serveNone() {
         say("22: how many: none", "serve() = 0; order(1, 0, 1, 1); serve() = 0; count(2) = 1", TWELVE + """
             serve() = 0; count(1) = 12; order(2, 0, 1, 1); serve() = 0; count(1) = 12; count(2) = 1; stack(11, 1) = 4
@@ -225,6 +252,17 @@ public final class StackEdgesTest {
             order(1, 0, 1, 1) = 0; serve() = 1; count(1) = 0
             """, FOUR + "order(1, 0, 2, 1); order(1, 0, 2, 1); order(1, 0, 4, 1); order(1, 0, 1, 1); serve() = 4; count(1) = 0",
             FOUR + "order(1, 0, 2, 1); order(1, 0, 1, 1); order(1, 0, 4, 1); serve() = 3; count(1) = 1; stack(0, 1) = 2   # 0; 1; 2");
+    }
+
+    private static void serveLast() {
+        say("22: the sixteenth BOARD, the sixth ORDER", TWELVE + """
+            rule(6, 16); log(2, 0, 1); saw() = 1; log(2, 0, 1); saw() = 1; log(2, 0, 1); saw() = 1; rule(6, 4); rule(0, 2); log(2, 0, 1); saw() = 1
+            count(1) = 16; order(3, 0, 1, 1); order(3, 0, 1, 1); order(3, 0, 1, 1); order(3, 0, 1, 1); order(3, 0, 1, 1); order(2, 0, 4, 1) = 5
+            met(0) = 32; met(1) = 1; serve() = 1; count(1) = 15; count(2) = 5; stack(14, 0) = 4; stack(15, 0) = -12; met(0) = 0
+            """, TWELVE + """
+            log(2, 0, 1); saw() = 4; order(1, 0, 1, 1); order(1, 0, 1, 1); order(1, 0, 1, 1); order(1, 0, 1, 1); order(1, 0, 1, 1)
+            order(1, 0, 1, 1) = 5; serve() = 6; count(1) = 10; count(2) = 0; stack(0, 1) = 12; stack(1, 1) = 12; stack(2, 1) = 10; stack(9, 1) = 2
+            """);
     }
 
     private static void serveByTurn() {

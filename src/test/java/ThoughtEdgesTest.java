@@ -7,6 +7,7 @@ public final class ThoughtEdgesTest {
 
     public static void main(String[] args) {
         without();
+        byTheRules();
         drawnNumbers();
         drawnNumbersAnew();
         eightInAll();
@@ -17,6 +18,7 @@ public final class ThoughtEdgesTest {
         tellsNumbers();
         tellsLength();
         tellsOtherwise();
+        tellsEach();
         tellsTurns();
         tellsKerfs();
         d.end("ThoughtEdgesTest");
@@ -51,6 +53,28 @@ public final class ThoughtEdgesTest {
             s.due("without(" + gone + ")", same.ask("best(1)"));
             s.due("best(1)", had);
             s.due("count(0)", 8);
+        }
+    }
+
+    private static void byTheRules() {
+        d.part("23 .. 25: WORTH of the BEST OPENING, by the RULES that there are");
+        String fault = "log(6, 1, 8); turn(1); fault(4, 0, 2, 3)\n";
+        for (int kerf = 0; kerf <= 2; kerf++) {
+            for (int save = 0; save <= 1; save++) {
+                for (int thick = 0; thick <= 30; thick += 6) {
+                    String rules = "rule(0, " + kerf + "); rule(1, " + save + "); rule(6, " + thick + "); rule(2, 7); rule(3, 5)\n";
+                    long bare = new Script(d).run(rules + "log(6, 1, 8); turn(1)").ask("best(1)");
+                    long had = new Script(d).run(rules + fault).ask("best(1)");
+                    long more = new Script(d).run(rules + fault + faults(8, 2)).ask("best(1)");
+                    Script s = new Script(d).run(rules + fault);
+                    s.due("without(0)", bare);
+                    s.due("drawn(8, 0)", had);
+                    s.due("drawn(8, 2)", more);
+                    s.due("chance(8, 1, " + more + ", 0)", 1);
+                    s.due("chance(8, 1, " + (more + 1) + ", 0)", 0);
+                    s.run("rule(0, " + kerf + ") = " + kerf + "; rule(6, " + thick + ") = " + thick + "; count(0) = 1; count(4) = 1; best(1) = " + had);
+                }
+            }
         }
     }
 
@@ -246,6 +270,28 @@ public final class ThoughtEdgesTest {
             tells(0, 0) = 0
             sheet(0, 1, 1); put(0, 0, 4294967299); tells(0, 0) = NONE
             """);
+    }
+
+    private static void tellsEach() {
+        d.part("26: GRADES that are not all the same: 0, 0, 1, 0, 0");
+        for (int sheet = 0; sheet < 4; sheet++) {
+            String told = "log(6, 0, 8); tape \"k022 h231 o061\"; text() = 3; turn(1); rule(0, 0); sheet(" + sheet + ", " + sheet % 2 + ", 5)\n";
+            Script s = new Script(d).run(told);
+            s.due("tells(" + sheet + ", 0)", 2);
+            s.due("tells(" + sheet + ", 1)", 0);
+            s.due("tells(" + sheet + ", 2)", 0);
+            s.ask("put(" + sheet + ", 2, 1)");
+            s.due("tells(" + sheet + ", 0)", -1);
+            s.due("tells(" + sheet + ", 1)", 10);
+            s.due("tells(" + sheet + ", 2)", 1);
+            for (int at = 0; at < 5; at++) {
+                s.ask("put(" + sheet + ", " + at + ", " + (at == 2 ? 0 : 1) + ")");
+                s.due("tells(" + sheet + ", 0)", at);
+                s.due("tells(" + sheet + ", 1)", 0);
+                s.ask("put(" + sheet + ", " + at + ", " + (at == 2 ? 1 : 0) + ")");
+            }
+            s.due("tells(" + sheet + ", 0)", -1);
+        }
     }
 
     private static void tellsTurns() {
